@@ -505,7 +505,6 @@ public final class Coppertrace {
         return cell % COLUMNS;
     }
 
-    /** How many columns or rows lie from the one stretch to the other one. */
     private static int between(int low, int high, int otherLow, int otherHigh) {
         if (otherLow > high) {
             return otherLow - high;
@@ -517,7 +516,7 @@ public final class Coppertrace {
         return Math.abs(columnOf(cell) - columnOf(other)) + Math.abs(rowOf(cell) - rowOf(other));
     }
 
-    /** The six directions rise with the number of the cell that they lead to. */
+    /** The directions rise with the cells that they lead to, as the lowest one comes first. */
     private static int nextCell(int cell, int direction) {
         switch (direction) {
             case 0:
@@ -1475,6 +1474,9 @@ public final class Coppertrace {
         static final int PRICED = 1;
         static final int CLOSED = 2;
         static final int FIRST_PRICE = 10;
+        static final int PRICE_RISE = 10;
+        static final int STEP_TOLL = 2;
+        static final int LAYER_TOLL = 5;
 
         final Sheet sheet;
         final Copper copper;
@@ -1584,7 +1586,6 @@ public final class Coppertrace {
             behind[cell] = from;
         }
 
-        /** Finds the cell where the way ends, and keeps the way. */
         int findEnd() {
             for (int turn = 0; turn < CELLS; turn++) {
                 int cell = takeNext();
@@ -1627,7 +1628,10 @@ public final class Coppertrace {
                 if (isChange && state[cell] == CLOSED) {
                     continue;
                 }
-                int more = (isChange ? 5 : 2) + (state[next] == PRICED ? price[next] : 0);
+                int more = isChange ? LAYER_TOLL : STEP_TOLL;
+                if (state[next] == PRICED) {
+                    more += price[next];
+                }
                 reachCell(next, cell, toll[cell] + more);
             }
         }
@@ -1639,7 +1643,6 @@ public final class Coppertrace {
             }
         }
 
-        /** Whether an item that comes along the way ends at this place of it. */
         boolean isItemEnd(int at) {
             if (at < 1 || at + 1 >= length) {
                 return at > 0;
@@ -1661,7 +1664,7 @@ public final class Coppertrace {
         void raisePrices() {
             for (int at = 0; at + 1 < length; at++) {
                 if (state[way[at]] == PRICED) {
-                    price[way[at]] += FIRST_PRICE;
+                    price[way[at]] += PRICE_RISE;
                 }
             }
         }
@@ -1727,7 +1730,7 @@ public final class Coppertrace {
             return false;
         }
 
-        /** Tells whether all ways fitted: each one makes an item, so there are no more than these. */
+        /** Tells whether all ways fitted. A way makes an item at least, so the turns suffice. */
         private boolean joinNet(int net) {
             for (int turn = 0; turn <= ITEMS; turn++) {
                 joints.join(false);

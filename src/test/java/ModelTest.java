@@ -15,6 +15,13 @@ public final class ModelTest {
         "place", "place", "place", "lift", "track", "track", "track", "via", "via", "erase", "setLocked",
         "pour", "route", "route", "route", "routeAll", "swap", "setGap", "setWire", "setName"};
 
+    private static final String[] SEARCHES = {
+        "route", "routeAll", "routeAll", "setGap", "setLocked", "setLocked", "place", "lift", "track", "erase",
+        "swap", "path", "opens", "ripped", "price", "gaps", "shorts", "isAsDrawn"};
+    private static final String[] LOOPS = {
+        "track", "track", "track", "via", "path", "path", "route", "route", "routeAll", "erase", "areJoined",
+        "areJoinedByPaint", "drillWay"};
+
     private final Random random;
     private final Coppertrace real = new Coppertrace();
     private final Naive model = new Naive();
@@ -25,11 +32,16 @@ public final class ModelTest {
     private final int height;
     private final boolean isWild;
 
+    private final String[] acts;
+    private final boolean isCrowded;
+
     private ModelTest(long seed) {
         random = new Random(seed);
+        acts = seed % 4 == 1 ? SEARCHES : seed % 4 == 2 ? LOOPS : ACTS;
+        isCrowded = seed % 8 == 1 || seed % 8 == 3;
         // Small corners of the board make copper meet more often.
-        width = 4 + random.nextInt(17);
-        height = 4 + random.nextInt(11);
+        width = acts == LOOPS ? 6 + random.nextInt(4) : 4 + random.nextInt(17);
+        height = acts == LOOPS ? 5 + random.nextInt(4) : 4 + random.nextInt(11);
         isWild = random.nextInt(4) == 0;
     }
 
@@ -53,20 +65,32 @@ public final class ModelTest {
     }
 
     private void run() {
-        int parts = 1 + random.nextInt(8);
+        int parts = acts == LOOPS ? 2 + random.nextInt(2) : 1 + random.nextInt(8);
         for (int k = 0; k < parts && wrong == 0; k++) {
             call("addPart", random.nextInt(3), 1 + random.nextInt(random.nextBoolean() ? 2 : 6), random.nextBoolean());
         }
-        int ties = random.nextInt(14);
+        for (int pin = 1; acts == LOOPS && pin < model.pins() && wrong == 0; pin++) {
+            call("setWire", 0, pin, true);
+        }
+        int ties = acts == LOOPS ? 0 : random.nextInt(14);
         for (int k = 0; k < ties && wrong == 0; k++) {
             callAny(SHEET[1 + random.nextInt(3)]);
         }
-        for (int k = 0; k < parts && wrong == 0; k++) {
+        for (int k = 0; k < (acts == LOOPS ? 4 * parts : parts) && wrong == 0; k++) {
             callAny("place");
+        }
+        for (int k = 0; isCrowded && k < 60 + random.nextInt(90) && wrong == 0; k++) {
+            if (random.nextInt(3) == 0) {
+                callAny(random.nextBoolean() ? "track" : "via");
+            } else {
+                // Items that come and go use their numbers up all the same.
+                call("via", 0, width - 1, height - 1);
+                call("erase", model.made.size() - 1);
+            }
         }
         int length = 20 + random.nextInt(60);
         for (int k = 0; k < length && wrong == 0 && calls < 500; k++) {
-            callAny(ACTS[random.nextInt(ACTS.length)]);
+            callAny(acts[random.nextInt(acts.length)]);
             if (random.nextInt(5) == 0) {
                 callAny(SHEET[random.nextInt(SHEET.length)]);
             }
