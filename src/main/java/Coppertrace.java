@@ -742,7 +742,6 @@ public final class Coppertrace {
             int item = made;
             put(PINS + item, ofPin, from, to);
             kind[PINS + item] = ofKind;
-            locked[item] = false;
             made++;
             return item;
         }

@@ -14,6 +14,7 @@ public final class LookTest {
         pouredGaps();
         pouredAreas();
         pouredAnew();
+        pouredCorners();
         joined();
         joinedByPouredCopper();
         opens();
@@ -188,6 +189,24 @@ public final class LookTest {
         board.setWire(0, 1, false);
         CHECK.same("now the other pad is in the way", board.poured(0), 279);
         CHECK.same("and apart", board.areJoined(0, 1), false);
+    }
+
+    private static void pouredCorners() {
+        Coppertrace first = board(false, 1, 0, 19, 13);
+        first.pour(0, 0, 0, 0, 1, 0);
+        first.pour(1, 0, 0, 0, 19, 13);
+        CHECK.same("the first corner is the first area's", first.poured(0), 2);
+        CHECK.same("and not the second one's", first.poured(1), 278);
+        Coppertrace low = board(false, 0, 0, 2, 0);
+        low.setWire(0, 1, true);
+        low.pour(0, 0, 0, 0, 2, 0);
+        both(low, 0, 1, true, "along the lowest row");
+        Coppertrace high = board(false, 19, 13, 17, 13);
+        high.setWire(0, 1, true);
+        high.addPart(0, 1, false);
+        high.track(2, 0, 18, 12, 2, true);
+        high.pour(0, 0, 17, 11, 19, 13);
+        both(high, 0, 1, true, "round a track in the highest row");
     }
 
     private static void joined() {

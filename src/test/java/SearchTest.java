@@ -25,6 +25,8 @@ public final class SearchTest {
         roundsAreMade();
         threePadsOfANet();
         itemsUsedUpByRounds();
+        itemsOfLongWays();
+        pricedWays();
         prices();
         System.exit(CHECK.end());
     }
@@ -315,6 +317,59 @@ public final class SearchTest {
         CHECK.same("none is open", board.routeAll(6), 0);
         board.setWire(0, 1, true);
         CHECK.same("none is left", board.routeAll(6), 1);
+    }
+
+    /** A way of the items v t v t fits if four numbers are left, and does not if three are. */
+    private static void itemsOfLongWays() {
+        for (int left = 3; left <= 4; left++) {
+            Coppertrace board = board(false, 2, 5, 6, 5, 19, 0);
+            board.track(2, 0, 4, 0, 14, true);
+            board.setLocked(0, true);
+            for (int item = 1; item < 150 - left; item++) {
+                board.via(2, 19, 0);
+                board.erase(item);
+            }
+            if (left == 3) {
+                CHECK.refused("four items, three are left", board, IllegalStateException.class, () -> board.route(0, 1));
+                CHECK.same("a round ends at once", board.routeAll(2), 1);
+                CHECK.same("ahead of the way", board.items(), 1);
+            } else {
+                CHECK.same("four items, four are left", board.route(0, 1), 18);
+                CHECK.same("the last item", told(board, 149), "t 102 103");
+            }
+        }
+    }
+
+    private static void pricedWays() {
+        // The first cell that is gone to has its price, the one where the way begins has none.
+        Coppertrace first = board(false, 2, 5, 6, 5, 19, 0);
+        first.track(2, 0, 3, 0, 14, true);
+        first.track(2, 1, 3, 0, 14, true);
+        first.setLocked(1, true);
+        CHECK.same("one round", first.routeAll(1), 1);
+        CHECK.same("the first cell gone to", first.price(103), 20);
+        CHECK.same("the beginning", first.price(102), 10);
+        CHECK.same("the second cell", first.price(104), 10);
+        Coppertrace begin = board(false, 2, 5, 6, 5, 19, 0);
+        begin.track(2, 0, 0, 5, 2, false);
+        begin.setGap(2, 1);
+        CHECK.same("one round from a near beginning", begin.routeAll(1), 1);
+        CHECK.same("what was near is gone", begin.ripped(), 1);
+        CHECK.same("the beginning costs nothing", begin.price(102), 10);
+        // Prices lead the second search away: crossing at the same cell would cost 20 now.
+        Coppertrace again = board(false, 2, 5, 6, 5, 19, 0);
+        again.track(2, 0, 4, 0, 14, true);
+        again.track(2, 1, 4, 0, 14, true);
+        again.setLocked(1, true);
+        CHECK.same("one round through the wall", again.routeAll(1), 1);
+        CHECK.same("straight at first", again.price(104), 20);
+        again.erase(2);
+        again.track(2, 0, 4, 0, 14, true);
+        CHECK.same("one round through the new wall", again.routeAll(1), 1);
+        CHECK.same("both walls were ripped", again.ripped(), 2);
+        CHECK.same("not there again", again.price(104), 20);
+        CHECK.same("but lower", again.price(84), 20);
+        CHECK.same("and not higher", again.price(124), 10);
     }
 
     private static void prices() {
