@@ -23,14 +23,6 @@ public final class BoardTest {
         System.exit(CHECK.end());
     }
 
-    private static Coppertrace singles(int count, boolean isThrough) {
-        Coppertrace board = new Coppertrace();
-        for (int part = 0; part < count; part++) {
-            board.addPart(0, 1, isThrough);
-        }
-        return board;
-    }
-
     private static void placeTurns() {
         int[] cells = {10 * 20 + 12, 12 * 20 + 10, 10 * 20 + 8, 8 * 20 + 10};
         for (int turn = 0; turn < 4; turn++) {
@@ -98,7 +90,7 @@ public final class BoardTest {
     }
 
     private static void placeNearItems() {
-        Coppertrace board = singles(2, false);
+        Coppertrace board = Boards.singles(2, false);
         board.addPart(0, 1, true);
         board.track(0, 1, 3, 5, 4, false);
         CHECK.same("a surface pad over a track of the layer 1", board.place(1, 4, 5, 0), 0);
@@ -119,7 +111,7 @@ public final class BoardTest {
     }
 
     private static void lift() {
-        Coppertrace board = singles(2, true);
+        Coppertrace board = Boards.singles(2, true);
         board.place(0, 3, 3, 0);
         CHECK.same("not placed", board.lift(1), false);
         CHECK.same("placed", board.lift(0), true);
@@ -133,7 +125,7 @@ public final class BoardTest {
     }
 
     private static void setGap() {
-        Coppertrace board = singles(3, false);
+        Coppertrace board = Boards.singles(3, false);
         CHECK.same("0 at first", board.setGap(0, 2), 0);
         CHECK.same("then 2", board.setGap(0, 1), 2);
         CHECK.same("then 1", board.setGap(0, 0), 1);
@@ -154,7 +146,7 @@ public final class BoardTest {
     }
 
     private static void track() {
-        Coppertrace board = singles(1, false);
+        Coppertrace board = Boards.singles(1, false);
         CHECK.same("the whole row", board.track(0, 1, 0, 13, 20, false), 0);
         CHECK.same("the whole column", board.track(0, 0, 19, 0, 14, true), 1);
         CHECK.same("two cells", board.track(0, 0, 0, 0, 2, true), 2);
@@ -179,7 +171,7 @@ public final class BoardTest {
     }
 
     private static void trackTooNear() {
-        Coppertrace board = singles(3, false);
+        Coppertrace board = Boards.singles(3, false);
         board.setWire(0, 1, true);
         board.place(0, 5, 5, 0);
         board.place(2, 10, 10, 0);
@@ -199,7 +191,7 @@ public final class BoardTest {
     }
 
     private static void via() {
-        Coppertrace board = singles(3, false);
+        Coppertrace board = Boards.singles(3, false);
         board.place(1, 5, 5, 0);
         CHECK.same("a via", board.via(0, 19, 13), 0);
         CHECK.same("its cell in the layer 0", board.cellOf(0, 0), 279);
@@ -221,7 +213,7 @@ public final class BoardTest {
     }
 
     private static void fullBoard() {
-        Coppertrace board = singles(2, false);
+        Coppertrace board = Boards.singles(2, false);
         for (int item = 0; item < 150; item++) {
             CHECK.same("item " + item, item % 2 == 0 ? board.via(0, 3, 3) : board.track(0, 0, 3, 3, 2, true), item);
             if (item % 3 == 0) {
@@ -239,7 +231,7 @@ public final class BoardTest {
     }
 
     private static void erase() {
-        Coppertrace board = singles(2, false);
+        Coppertrace board = Boards.singles(2, false);
         board.track(0, 0, 0, 0, 5, false);
         board.via(0, 4, 0);
         board.setLocked(0, true);
@@ -253,7 +245,7 @@ public final class BoardTest {
     }
 
     private static void setLocked() {
-        Coppertrace board = singles(1, false);
+        Coppertrace board = Boards.singles(1, false);
         board.via(0, 0, 0);
         board.via(0, 1, 1);
         CHECK.same("not locked at first", board.setLocked(0, false), false);
@@ -268,7 +260,7 @@ public final class BoardTest {
     }
 
     private static void pour() {
-        Coppertrace board = singles(1, false);
+        Coppertrace board = Boards.singles(1, false);
         int[][] wrong = {{-1, 0, 0, 0, 0}, {2, 0, 0, 0, 0}, {0, -1, 0, 0, 0}, {0, 0, -1, 0, 0}, {0, 0, 0, 20, 0},
             {0, 0, 0, 0, 14}, {0, 3, 0, 2, 0}, {0, 0, 3, 0, 2}, {0, 20, 0, 20, 0}, {0, 0, 14, 0, 14}, {0, 0, 0, -1, 0}};
         for (int[] at : wrong) {

@@ -28,6 +28,11 @@ final class Check {
         same(what + " changes", look(board), before);
     }
 
+    /** The call must throw just this class; RefusedTest tells whether such a call changes nothing. */
+    void thrown(String what, Class<? extends RuntimeException> due, Call call) {
+        same(what, outcome(call), due.getName());
+    }
+
     private static String outcome(Call call) {
         try {
             return "the answer " + call.now();

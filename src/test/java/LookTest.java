@@ -32,18 +32,8 @@ public final class LookTest {
         System.exit(CHECK.end());
     }
 
-    /** Parts of one pin each, placed at columns and rows, each pin its own net. */
-    private static Coppertrace board(boolean isThrough, int... places) {
-        Coppertrace board = new Coppertrace();
-        for (int part = 0; 2 * part < places.length; part++) {
-            board.addPart(0, 1, isThrough);
-            board.place(part, places[2 * part], places[2 * part + 1], 0);
-        }
-        return board;
-    }
-
     private static void items() {
-        Coppertrace board = board(false, 2, 2);
+        Coppertrace board = Boards.placed(false, 2, 2);
         board.track(0, 1, 3, 4, 3, true);
         board.via(0, 3, 4);
         board.track(0, 0, 17, 4, 3, false);
@@ -98,7 +88,7 @@ public final class LookTest {
     }
 
     private static void pouredAndIslands() {
-        Coppertrace board = board(false, 5, 5, 12, 12, 19, 0);
+        Coppertrace board = Boards.placed(false, 5, 5, 12, 12, 19, 0);
         board.setWire(0, 1, true);
         board.lift(1);
         CHECK.same("the area", board.pour(0, 0, 0, 0, 19, 13), 0);
@@ -119,7 +109,7 @@ public final class LookTest {
             CHECK.refused("poured of area " + area, board, NO_SUCH, () -> board.poured(area));
             CHECK.refused("islands of area " + area, board, NO_SUCH, () -> board.islands(area));
         }
-        Coppertrace corner = board(false, 0, 0, 19, 13);
+        Coppertrace corner = Boards.placed(false, 0, 0, 19, 13);
         corner.track(1, 0, 1, 0, 2, false);
         corner.track(1, 0, 0, 1, 2, true);
         corner.pour(0, 0, 0, 0, 1, 1);
@@ -129,7 +119,7 @@ public final class LookTest {
     }
 
     private static void pouredGaps() {
-        Coppertrace board = board(false, 5, 5, 12, 12, 19, 0);
+        Coppertrace board = Boards.placed(false, 5, 5, 12, 12, 19, 0);
         board.track(1, 0, 10, 0, 14, true);
         board.pour(0, 0, 0, 0, 19, 13);
         board.setGap(0, 1);
@@ -142,7 +132,7 @@ public final class LookTest {
         CHECK.same("without a gap", board.poured(0), 10 * 14);
         board.setWire(0, 1, true);
         CHECK.same("of one net", board.poured(0), 279);
-        Coppertrace through = board(true, 5, 5, 9, 9);
+        Coppertrace through = Boards.placed(true, 5, 5, 9, 9);
         through.pour(0, 1, 4, 4, 10, 10);
         CHECK.same("a pad that goes through, on the layer 1", through.poured(0), 48);
         through.setGap(1, 2);
@@ -150,7 +140,7 @@ public final class LookTest {
     }
 
     private static void pouredAreas() {
-        Coppertrace board = board(false, 5, 5, 15, 5, 2, 12);
+        Coppertrace board = Boards.placed(false, 5, 5, 15, 5, 2, 12);
         board.setGap(2, 1);
         board.pour(0, 0, 0, 0, 9, 13);
         board.pour(1, 0, 0, 0, 19, 13);
@@ -177,7 +167,7 @@ public final class LookTest {
     }
 
     private static void pouredAnew() {
-        Coppertrace board = board(false, 5, 5, 15, 5);
+        Coppertrace board = Boards.placed(false, 5, 5, 15, 5);
         board.setWire(0, 1, true);
         board.addPart(0, 1, false);
         board.pour(0, 0, 0, 0, 19, 13);
@@ -192,16 +182,16 @@ public final class LookTest {
     }
 
     private static void pouredCorners() {
-        Coppertrace first = board(false, 1, 0, 19, 13);
+        Coppertrace first = Boards.placed(false, 1, 0, 19, 13);
         first.pour(0, 0, 0, 0, 1, 0);
         first.pour(1, 0, 0, 0, 19, 13);
         CHECK.same("the first corner is the first area's", first.poured(0), 2);
         CHECK.same("and not the second one's", first.poured(1), 278);
-        Coppertrace low = board(false, 0, 0, 2, 0);
+        Coppertrace low = Boards.placed(false, 0, 0, 2, 0);
         low.setWire(0, 1, true);
         low.pour(0, 0, 0, 0, 2, 0);
         both(low, 0, 1, true, "along the lowest row");
-        Coppertrace high = board(false, 19, 13, 17, 13);
+        Coppertrace high = Boards.placed(false, 19, 13, 17, 13);
         high.setWire(0, 1, true);
         high.addPart(0, 1, false);
         high.track(2, 0, 18, 12, 2, true);
@@ -210,7 +200,7 @@ public final class LookTest {
     }
 
     private static void joined() {
-        Coppertrace board = board(false, 2, 5, 6, 5, 6, 9);
+        Coppertrace board = Boards.placed(false, 2, 5, 6, 5, 6, 9);
         board.addPart(0, 1, false);
         board.setWire(0, 1, true);
         both(board, 0, 1, false, "apart");
@@ -238,7 +228,7 @@ public final class LookTest {
             CHECK.refused("by paint, pin " + pin, board, NO_SUCH, () -> board.areJoinedByPaint(pin, 0));
             CHECK.refused("by paint, other " + pin, board, NO_SUCH, () -> board.areJoinedByPaint(0, pin));
         }
-        Coppertrace through = board(true, 2, 5, 6, 5, 4, 5);
+        Coppertrace through = Boards.placed(true, 2, 5, 6, 5, 4, 5);
         through.setName(0, 'A');
         through.setName(1, 'A');
         through.setName(2, 'A');
@@ -255,7 +245,7 @@ public final class LookTest {
     }
 
     private static void joinedByPouredCopper() {
-        Coppertrace board = board(false, 2, 5, 8, 5);
+        Coppertrace board = Boards.placed(false, 2, 5, 8, 5);
         board.setWire(0, 1, true);
         board.pour(0, 0, 0, 0, 4, 13);
         board.pour(0, 0, 5, 0, 9, 13);
@@ -270,7 +260,7 @@ public final class LookTest {
     }
 
     private static void opens() {
-        Coppertrace board = board(false, 2, 5, 6, 5, 10, 5, 14, 5);
+        Coppertrace board = Boards.placed(false, 2, 5, 6, 5, 10, 5, 14, 5);
         for (int pin = 0; pin < 3; pin++) {
             board.setWire(pin, pin + 1, true);
         }
@@ -289,7 +279,7 @@ public final class LookTest {
     }
 
     private static void shorts() {
-        Coppertrace board = board(false, 2, 5, 6, 5, 10, 5, 14, 5);
+        Coppertrace board = Boards.placed(false, 2, 5, 6, 5, 10, 5, 14, 5);
         for (int pin = 0; pin < 3; pin++) {
             board.setWire(pin, pin + 1, true);
         }
@@ -309,7 +299,7 @@ public final class LookTest {
     }
 
     private static void gaps() {
-        Coppertrace board = board(true, 5, 5, 7, 5, 5, 7);
+        Coppertrace board = Boards.placed(true, 5, 5, 7, 5, 5, 7);
         CHECK.same("two away, no gap", board.gaps(), 0);
         board.setGap(0, 2);
         CHECK.same("pad to pad", board.gaps(), 2);
@@ -335,7 +325,7 @@ public final class LookTest {
     }
 
     private static void airLength() {
-        Coppertrace board = board(false, 0, 0, 10, 0, 10, 8, 0, 8);
+        Coppertrace board = Boards.placed(false, 0, 0, 10, 0, 10, 8, 0, 8);
         for (int pin = 0; pin < 3; pin++) {
             board.setWire(pin, pin + 1, true);
         }
@@ -356,7 +346,7 @@ public final class LookTest {
     }
 
     private static void path() {
-        Coppertrace board = board(false, 2, 5, 6, 5, 6, 9);
+        Coppertrace board = Boards.placed(false, 2, 5, 6, 5, 6, 9);
         board.setWire(0, 1, true);
         board.setWire(0, 2, true);
         CHECK.refused("not joined", board, NONE, () -> board.path(0, 1));
@@ -386,7 +376,7 @@ public final class LookTest {
     }
 
     private static void pathOverBothLayers() {
-        Coppertrace board = board(false, 2, 5, 6, 5);
+        Coppertrace board = Boards.placed(false, 2, 5, 6, 5);
         board.setWire(0, 1, true);
         board.via(0, 2, 5);
         board.via(0, 6, 5);
@@ -396,7 +386,7 @@ public final class LookTest {
         CHECK.same("a dead end", board.path(0, 1), 6);
         board.track(0, 0, 5, 5, 2, false);
         CHECK.refused("two ways, one in each layer", board, UNSUPPORTED, () -> board.path(0, 1));
-        Coppertrace through = board(true, 2, 5, 6, 5);
+        Coppertrace through = Boards.placed(true, 2, 5, 6, 5);
         through.setWire(0, 1, true);
         through.track(0, 0, 2, 5, 5, false);
         CHECK.same("pads that go through, in the layer 0", through.path(0, 1), 4);
@@ -405,7 +395,7 @@ public final class LookTest {
     }
 
     private static void drillWay() {
-        Coppertrace board = board(false, 2, 5, 6, 5);
+        Coppertrace board = Boards.placed(false, 2, 5, 6, 5);
         CHECK.same("surface pads are no holes", board.drillWay(), 0);
         board.via(0, 0, 0);
         CHECK.same("one hole", board.drillWay(), 0);
@@ -435,7 +425,7 @@ public final class LookTest {
     }
 
     private static void trackLength() {
-        Coppertrace board = board(false, 2, 5);
+        Coppertrace board = Boards.placed(false, 2, 5);
         board.track(0, 0, 0, 0, 20, false);
         CHECK.same("one track", board.trackLength(), 19L);
         board.track(0, 1, 0, 0, 14, true);
@@ -448,7 +438,7 @@ public final class LookTest {
     }
 
     private static void joinedShare() {
-        Coppertrace board = board(false, 2, 5, 6, 5, 10, 5, 14, 5, 2, 9, 6, 9);
+        Coppertrace board = Boards.placed(false, 2, 5, 6, 5, 10, 5, 14, 5, 2, 9, 6, 9);
         CHECK.refused("no net of two pins", board, ArithmeticException.class, () -> board.joinedShare());
         board.setWire(0, 1, true);
         CHECK.same("an open one", board.joinedShare(), 0f);
@@ -476,7 +466,7 @@ public final class LookTest {
     }
 
     private static void isAsDrawn() {
-        Coppertrace board = board(false, 2, 5, 6, 5, 10, 5);
+        Coppertrace board = Boards.placed(false, 2, 5, 6, 5, 10, 5);
         CHECK.same("nothing is drawn or joined", board.isAsDrawn(), true);
         board.setWire(0, 1, true);
         CHECK.same("drawn, but not joined", board.isAsDrawn(), false);
@@ -495,7 +485,7 @@ public final class LookTest {
     }
 
     private static void isConsistent() {
-        Coppertrace board = board(true, 2, 5, 6, 5, 10, 5, 14, 5);
+        Coppertrace board = Boards.placed(true, 2, 5, 6, 5, 10, 5, 14, 5);
         CHECK.same("pads", board.isConsistent(), true);
         board.setWire(0, 1, true);
         board.setWire(2, 3, true);

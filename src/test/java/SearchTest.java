@@ -31,75 +31,50 @@ public final class SearchTest {
         System.exit(CHECK.end());
     }
 
-    /** Parts of one pin each, placed at columns and rows; the pins 0 and 1 are wired. */
-    private static Coppertrace board(boolean isThrough, int... places) {
-        Coppertrace board = new Coppertrace();
-        for (int part = 0; 2 * part < places.length; part++) {
-            board.addPart(0, 1, isThrough);
-            board.place(part, places[2 * part], places[2 * part + 1], 0);
-        }
-        board.setWire(0, 1, true);
-        return board;
-    }
-
-    private static String told(Coppertrace board, int item) {
-        StringBuilder all = new StringBuilder();
-        all.append(board.kindOf(item));
-        for (int index = 0; index < 20; index++) {
-            try {
-                int cell = board.cellOf(item, index);
-                all.append(' ').append(cell);
-            } catch (NoSuchElementException e) {
-                return all.toString();
-            }
-        }
-        return all.toString();
-    }
-
     private static void straightWay() {
-        Coppertrace board = board(false, 2, 5, 6, 5);
+        Coppertrace board = Boards.wired(false, 2, 5, 6, 5);
         CHECK.same("toll of four steps", board.route(1, 0), 8);
         CHECK.same("one item", board.items(), 1);
-        CHECK.same("the track", told(board, 0), "t 102 103 104 105 106");
+        CHECK.same("the track", Boards.told(board, 0), "t 102 103 104 105 106");
         board.setWire(0, 1, false);
         board.lift(1);
         CHECK.same("it belongs to the first pin", board.netAt(104), 1);
-        Coppertrace up = board(false, 3, 9, 3, 2);
+        Coppertrace up = Boards.wired(false, 3, 9, 3, 2);
         CHECK.same("toll of seven steps", up.route(0, 1), 14);
-        CHECK.same("the track upwards", told(up, 0), "t 43 63 83 103 123 143 163 183");
+        CHECK.same("the track upwards", Boards.told(up, 0), "t 43 63 83 103 123 143 163 183");
         CHECK.same("not locked", up.setLocked(0, false), false);
     }
 
     private static void wayRoundPads() {
         // A pad of another net in between: down by a row is tried before up.
-        Coppertrace board = board(true, 2, 5, 6, 5, 4, 5);
+        Coppertrace board = Boards.wired(true, 2, 5, 6, 5, 4, 5);
         CHECK.same("toll round a pad", board.route(0, 1), 12);
         CHECK.same("three tracks", board.items(), 3);
-        CHECK.same("from the end that was found", told(board, 0), "t 86 106");
-        CHECK.same("then along", told(board, 1), "t 82 83 84 85 86");
-        CHECK.same("to where it began", told(board, 2), "t 82 102");
+        CHECK.same("from the end that was found", Boards.told(board, 0), "t 86 106");
+        CHECK.same("then along", Boards.told(board, 1), "t 82 83 84 85 86");
+        CHECK.same("to where it began", Boards.told(board, 2), "t 82 102");
     }
 
     private static void wayOnBothLayers() {
-        Coppertrace board = board(false, 2, 5, 6, 5, 19, 0);
+        Coppertrace board = Boards.wired(false, 2, 5, 6, 5, 19, 0);
         board.track(2, 0, 4, 0, 14, true);
         CHECK.same("toll under a wall", board.route(0, 1), 18);
-        CHECK.same("via at the end", told(board, 1), "v 106 386");
-        CHECK.same("below the wall", told(board, 2), "t 383 384 385 386");
-        CHECK.same("via before the wall", told(board, 3), "v 103 383");
-        CHECK.same("to the pad", told(board, 4), "t 102 103");
+        CHECK.same("via at the end", Boards.told(board, 1), "v 106 386");
+        CHECK.same("below the wall", Boards.told(board, 2), "t 383 384 385 386");
+        CHECK.same("via before the wall", Boards.told(board, 3), "v 103 383");
+        CHECK.same("to the pad", Boards.told(board, 4), "t 102 103");
         CHECK.same("no more", board.items(), 5);
         CHECK.same("nothing is too near", board.gaps(), 0);
     }
 
     private static void nearEnds() {
-        Coppertrace atEnd = board(false, 2, 5, 6, 5, 19, 0);
+        Coppertrace atEnd = Boards.wired(false, 2, 5, 6, 5, 19, 0);
         atEnd.track(2, 0, 7, 5, 2, false);
         atEnd.setGap(2, 1);
         CHECK.refused("the end is too near to another net", atEnd, NONE, () -> atEnd.route(0, 1));
         // The same two pads, from the other side: where it begins may be too near.
         CHECK.same("the beginning does not matter", atEnd.route(1, 0), 8);
-        Coppertrace locked = board(false, 2, 5, 6, 5, 19, 0);
+        Coppertrace locked = Boards.wired(false, 2, 5, 6, 5, 19, 0);
         locked.track(2, 0, 4, 0, 14, true);
         locked.track(2, 1, 4, 0, 14, true);
         CHECK.refused("walls in both layers", locked, NONE, () -> locked.route(0, 1));
@@ -107,29 +82,29 @@ public final class SearchTest {
     }
 
     private static void layerChangeAtTheBeginning() {
-        Coppertrace board = board(false, 2, 5, 8, 5, 19, 0);
+        Coppertrace board = Boards.wired(false, 2, 5, 8, 5, 19, 0);
         board.track(2, 0, 3, 0, 14, true);
         board.setGap(2, 1);
         // At (2, 5) the wall is too near for a via, so the way steps back first.
         CHECK.same("toll with a step back", board.route(0, 1), 2 + 5 + 14 + 5);
-        CHECK.same("via at the end", told(board, 1), "v 108 388");
-        CHECK.same("below the wall", told(board, 2), "t 381 382 383 384 385 386 387 388");
-        CHECK.same("via away from the wall", told(board, 3), "v 101 381");
-        CHECK.same("the step back", told(board, 4), "t 101 102");
+        CHECK.same("via at the end", Boards.told(board, 1), "v 108 388");
+        CHECK.same("below the wall", Boards.told(board, 2), "t 381 382 383 384 385 386 387 388");
+        CHECK.same("via away from the wall", Boards.told(board, 3), "v 101 381");
+        CHECK.same("the step back", Boards.told(board, 4), "t 101 102");
     }
 
     private static void fromAllThatIsJoined() {
-        Coppertrace board = board(false, 2, 5, 12, 9);
+        Coppertrace board = Boards.wired(false, 2, 5, 12, 9);
         board.track(0, 0, 2, 5, 9, false);
         board.track(1, 0, 12, 7, 3, true);
         // From (10, 5), the end of the one track, to (12, 7), the end of the other one.
         CHECK.same("toll between the tracks", board.route(0, 1), 8);
-        CHECK.same("the items are between them", told(board, 2), "t 112 132 152");
-        CHECK.same("and the rest", told(board, 3), "t 110 111 112");
+        CHECK.same("the items are between them", Boards.told(board, 2), "t 112 132 152");
+        CHECK.same("and the rest", Boards.told(board, 3), "t 110 111 112");
     }
 
     private static void pouredCopperDoesNotMatter() {
-        Coppertrace board = board(false, 2, 5, 6, 5, 4, 8);
+        Coppertrace board = Boards.wired(false, 2, 5, 6, 5, 4, 8);
         board.pour(0, 0, 0, 5, 19, 5);
         board.pour(2, 0, 0, 0, 19, 13);
         CHECK.same("joined by poured copper", board.areJoined(0, 1), true);
@@ -139,18 +114,18 @@ public final class SearchTest {
 
     private static void tiesGoToLowCells() {
         // Of all shortest ways from (2, 2) to (4, 4), cells are done by toll, then by number.
-        Coppertrace board = board(false, 2, 2, 4, 4);
+        Coppertrace board = Boards.wired(false, 2, 2, 4, 4);
         CHECK.same("toll slantwise", board.route(0, 1), 8);
-        CHECK.same("up at the end", told(board, 0), "t 44 64 84");
-        CHECK.same("right at the beginning", told(board, 1), "t 42 43 44");
-        Coppertrace back = board(false, 4, 4, 2, 2);
+        CHECK.same("up at the end", Boards.told(board, 0), "t 44 64 84");
+        CHECK.same("right at the beginning", Boards.told(board, 1), "t 42 43 44");
+        Coppertrace back = Boards.wired(false, 4, 4, 2, 2);
         CHECK.same("toll back", back.route(0, 1), 8);
-        CHECK.same("left at the end", told(back, 0), "t 42 43 44");
-        CHECK.same("down at the beginning", told(back, 1), "t 44 64 84");
+        CHECK.same("left at the end", Boards.told(back, 0), "t 42 43 44");
+        CHECK.same("down at the beginning", Boards.told(back, 1), "t 44 64 84");
     }
 
     private static void refusedRoutes() {
-        Coppertrace board = board(false, 2, 5, 6, 5, 9, 9);
+        Coppertrace board = Boards.wired(false, 2, 5, 6, 5, 9, 9);
         CHECK.refused("no pin 3", board, NO_SUCH, () -> board.route(0, 3));
         CHECK.refused("no pin -1", board, NO_SUCH, () -> board.route(-1, 0));
         CHECK.refused("two nets", board, ILLEGAL, () -> board.route(0, 2));
@@ -162,7 +137,7 @@ public final class SearchTest {
     }
 
     private static void itemsUsedUpByRoute() {
-        Coppertrace board = board(false, 2, 5, 6, 7, 15, 1);
+        Coppertrace board = Boards.wired(false, 2, 5, 6, 7, 15, 1);
         for (int item = 0; item < 149; item++) {
             board.via(2, 15, 1);
             board.erase(item);
@@ -179,7 +154,7 @@ public final class SearchTest {
     }
 
     private static Coppertrace crossing() {
-        Coppertrace board = board(false, 2, 5, 6, 5, 4, 0, 4, 13);
+        Coppertrace board = Boards.wired(false, 2, 5, 6, 5, 4, 0, 4, 13);
         board.setWire(2, 3, true);
         board.track(2, 0, 4, 0, 14, true);
         board.track(2, 1, 4, 0, 14, true);
@@ -192,15 +167,15 @@ public final class SearchTest {
         CHECK.same("one item was in the way", board.ripped(), 1);
         CHECK.same("it is gone", board.kindOf(0), '-');
         CHECK.same("that of the other layer is not", board.kindOf(1), 't');
-        CHECK.same("straight through", told(board, 2), "t 102 103 104 105 106");
+        CHECK.same("straight through", Boards.told(board, 2), "t 102 103 104 105 106");
         CHECK.same("the price of the crossing", board.price(104), 20);
         CHECK.same("the price next to it", board.price(103), 10);
         CHECK.same("the price of the other layer", board.price(384), 10);
         // Through the other layer is 10 more than straight, round the track 12, through it 14 or more.
-        CHECK.same("the other net's via at its end", told(board, 3), "v 264 544");
-        CHECK.same("along its own track", told(board, 4), "t 364 384 404 424 444 464 484 504 524 544");
-        CHECK.same("via before the new track", told(board, 5), "v 84 364");
-        CHECK.same("to its pad", told(board, 6), "t 4 24 44 64 84");
+        CHECK.same("the other net's via at its end", Boards.told(board, 3), "v 264 544");
+        CHECK.same("along its own track", Boards.told(board, 4), "t 364 384 404 424 444 464 484 504 524 544");
+        CHECK.same("via before the new track", Boards.told(board, 5), "v 84 364");
+        CHECK.same("to its pad", Boards.told(board, 6), "t 4 24 44 64 84");
         CHECK.same("no more", board.items(), 6);
         CHECK.same("all is joined", board.isAsDrawn(), true);
         CHECK.same("nothing is left to do", board.routeAll(1), 0);
@@ -222,7 +197,7 @@ public final class SearchTest {
         CHECK.same("nothing was made", both.items(), 2);
         CHECK.same("still open", both.opens(0), 1);
         // A locked item that is too near to where a way begins stays, an unlocked one does not.
-        Coppertrace begin = board(false, 2, 5, 6, 5, 19, 0);
+        Coppertrace begin = Boards.wired(false, 2, 5, 6, 5, 19, 0);
         begin.track(2, 0, 0, 5, 2, false);
         begin.track(2, 0, 0, 4, 2, false);
         begin.setGap(2, 1);
@@ -235,7 +210,7 @@ public final class SearchTest {
     }
 
     private static void pricedLastCell() {
-        Coppertrace board = board(false, 2, 5, 6, 5, 19, 0);
+        Coppertrace board = Boards.wired(false, 2, 5, 6, 5, 19, 0);
         board.track(2, 0, 7, 5, 2, false);
         board.track(2, 0, 8, 5, 2, false);
         board.via(2, 6, 6);
@@ -253,7 +228,7 @@ public final class SearchTest {
 
     private static void roundsAreMade() {
         // The layer 1 is locked up, and two nets must cross on the other one: they rip for ever.
-        Coppertrace board = board(false, 0, 5, 19, 5, 8, 0, 8, 13, 15, 9);
+        Coppertrace board = Boards.wired(false, 0, 5, 19, 5, 8, 0, 8, 13, 15, 9);
         board.setWire(2, 3, true);
         for (int row = 0; row < 14; row++) {
             board.track(4, 1, 0, row, 20, false);
@@ -268,7 +243,7 @@ public final class SearchTest {
         CHECK.same("still the first one", board.opens(0), 1);
         CHECK.same("and the second one", board.opens(2), 0);
         CHECK.same("locked ones are there", board.kindOf(0) == 't' && board.kindOf(13) == 't', true);
-        Coppertrace wrong = board(false, 2, 5, 6, 5);
+        Coppertrace wrong = Boards.wired(false, 2, 5, 6, 5);
         for (int rounds : new int[] {0, 7, -1, Integer.MIN_VALUE, Integer.MAX_VALUE}) {
             CHECK.refused("rounds out of range", wrong, ILLEGAL, () -> wrong.routeAll(rounds));
         }
@@ -278,20 +253,20 @@ public final class SearchTest {
     }
 
     private static void threePadsOfANet() {
-        Coppertrace board = board(false, 2, 5, 16, 5, 6, 5);
+        Coppertrace board = Boards.wired(false, 2, 5, 16, 5, 6, 5);
         board.setWire(1, 2, true);
         board.lift(0);
         board.lift(1);
         board.place(1, 16, 5, 0);
         board.place(0, 2, 5, 0);
         CHECK.same("one round", board.routeAll(2), 1);
-        CHECK.same("the nearest one first", told(board, 0), "t 102 103 104 105 106");
-        CHECK.same("from there to the other one", told(board, 1), "t 106 107 108 109 110 111 112 113 114 115 116");
+        CHECK.same("the nearest one first", Boards.told(board, 0), "t 102 103 104 105 106");
+        CHECK.same("from there to the other one", Boards.told(board, 1), "t 106 107 108 109 110 111 112 113 114 115 116");
         CHECK.same("two items", board.items(), 2);
         board.lift(0);
         board.setWire(0, 1, false);
         CHECK.same("they belong to the lowest placed pad", board.netAt(104), 0);
-        Coppertrace part = board(false, 2, 5, 6, 5, 10, 5);
+        Coppertrace part = Boards.wired(false, 2, 5, 6, 5, 10, 5);
         part.setWire(1, 2, true);
         part.lift(0);
         part.routeAll(1);
@@ -302,7 +277,7 @@ public final class SearchTest {
     }
 
     private static void itemsUsedUpByRounds() {
-        Coppertrace board = board(false, 2, 5, 6, 7, 10, 5, 14, 5);
+        Coppertrace board = Boards.wired(false, 2, 5, 6, 7, 10, 5, 14, 5);
         board.setWire(2, 3, true);
         for (int item = 0; item < 149; item++) {
             board.via(2, 10, 5);
@@ -322,7 +297,7 @@ public final class SearchTest {
     /** A way of the items v t v t fits if four numbers are left, and does not if three are. */
     private static void itemsOfLongWays() {
         for (int left = 3; left <= 4; left++) {
-            Coppertrace board = board(false, 2, 5, 6, 5, 19, 0);
+            Coppertrace board = Boards.wired(false, 2, 5, 6, 5, 19, 0);
             board.track(2, 0, 4, 0, 14, true);
             board.setLocked(0, true);
             for (int item = 1; item < 150 - left; item++) {
@@ -335,14 +310,14 @@ public final class SearchTest {
                 CHECK.same("ahead of the way", board.items(), 1);
             } else {
                 CHECK.same("four items, four are left", board.route(0, 1), 18);
-                CHECK.same("the last item", told(board, 149), "t 102 103");
+                CHECK.same("the last item", Boards.told(board, 149), "t 102 103");
             }
         }
     }
 
     private static void pricedWays() {
         // The first cell that is gone to has its price, the one where the way begins has none.
-        Coppertrace first = board(false, 2, 5, 6, 5, 19, 0);
+        Coppertrace first = Boards.wired(false, 2, 5, 6, 5, 19, 0);
         first.track(2, 0, 3, 0, 14, true);
         first.track(2, 1, 3, 0, 14, true);
         first.setLocked(1, true);
@@ -350,14 +325,14 @@ public final class SearchTest {
         CHECK.same("the first cell gone to", first.price(103), 20);
         CHECK.same("the beginning", first.price(102), 10);
         CHECK.same("the second cell", first.price(104), 10);
-        Coppertrace begin = board(false, 2, 5, 6, 5, 19, 0);
+        Coppertrace begin = Boards.wired(false, 2, 5, 6, 5, 19, 0);
         begin.track(2, 0, 0, 5, 2, false);
         begin.setGap(2, 1);
         CHECK.same("one round from a near beginning", begin.routeAll(1), 1);
         CHECK.same("what was near is gone", begin.ripped(), 1);
         CHECK.same("the beginning costs nothing", begin.price(102), 10);
         // Prices lead the second search away: crossing at the same cell would cost 20 now.
-        Coppertrace again = board(false, 2, 5, 6, 5, 19, 0);
+        Coppertrace again = Boards.wired(false, 2, 5, 6, 5, 19, 0);
         again.track(2, 0, 4, 0, 14, true);
         again.track(2, 1, 4, 0, 14, true);
         again.setLocked(1, true);
