@@ -36,12 +36,15 @@ public final class EdgeBoardTest {
         viasAndVias();
         netsOfItemsAsNow();
         lastItem();
+        lastItemStays();
         itemsOfSearchesCount();
         erasedItems();
         lockedItems();
         smallestAreas();
         largestAreas();
         fourAreas();
+        lastCellOfTheLastArea();
+        firstCellOfAreas();
         pouringRoundPads();
         pouringRoundEarlierAreas();
         System.exit(CHECK.end());
@@ -434,6 +437,21 @@ public final class EdgeBoardTest {
         CHECK.thrown("but its number is used", IllegalStateException.class, () -> board.via(0, 0, 0));
     }
 
+    /** Looking for room for a part leaves the last of 150 items where it is. */
+    private static void lastItemStays() {
+        Coppertrace board = Boards.singles(2, true);
+        for (int item = 0; item < 150; item++) {
+            board.via(0, 10, 7);
+        }
+        canBe("a part elsewhere", true, () -> board.place(0, 3, 3, 0));
+        canBe("a part in their place", false, () -> board.place(1, 10, 7, 0));
+        CHECK.same("the last item", Boards.told(board, 149), "v 150 430");
+        board.pour(1, 0, 0, 0, 19, 13);
+        board.place(1, 15, 3, 0);
+        CHECK.same("no fault", board.isConsistent(), true);
+        CHECK.same("the last item still", Boards.told(board, 149), "v 150 430");
+    }
+
     private static void itemsOfSearchesCount() {
         Coppertrace board = Boards.wired(false, 2, 5, 6, 5);
         Boards.useUp(board, 0, 15, 1, 2);
@@ -510,8 +528,43 @@ public final class EdgeBoardTest {
         }
         for (int area = 0; area < 4; area++) {
             CHECK.same("its cells", board.poured(area), 4 + area);
+            CHECK.same("its island", board.islands(area), 1);
         }
         CHECK.thrown("a fifth one", IllegalStateException.class, () -> board.pour(0, 0, 0, 0, 3, 0));
+    }
+
+    private static void lastCellOfTheLastArea() {
+        Coppertrace board = Boards.singles(2, true);
+        for (int area = 0; area < 3; area++) {
+            board.pour(0, 1, 0, 0, 19, 13);
+        }
+        board.pour(0, 1, 19, 13, 19, 13);
+        board.place(0, 19, 13, 0);
+        CHECK.same("one cell", board.poured(3), 1);
+        CHECK.same("one island", board.islands(3), 1);
+        CHECK.same("a layer", board.poured(2), 280);
+        CHECK.same("joined and painted", board.areJoined(0, 0) && board.areJoinedByPaint(0, 0), true);
+        Coppertrace layers = Boards.wired(true, 0, 0, 19, 13);
+        for (int area = 0; area < 4; area++) {
+            layers.pour(0, area % 2, 0, 0, 19, 13);
+        }
+        CHECK.same("the fourth one is a whole layer", layers.poured(3), 280);
+        CHECK.same("which joins", layers.areJoined(0, 1) && layers.areJoinedByPaint(0, 1), true);
+    }
+
+    /** The first cell of a layer is none of an earlier area, of another layer or of what has been. */
+    private static void firstCellOfAreas() {
+        Coppertrace board = Boards.placed(false, 0, 0);
+        board.addPart(0, 1, false);
+        board.pour(0, 0, 0, 0, 5, 5);
+        board.pour(1, 1, 0, 0, 5, 5);
+        board.pour(0, 1, 0, 0, 5, 5);
+        CHECK.same("with a pad in the first cell", board.poured(0), 36);
+        CHECK.same("below a pad of another net", board.poured(1), 0);
+        CHECK.same("below a pad of its net", board.poured(2), 0);
+        board.lift(0);
+        CHECK.same("where a pad has been", board.poured(0), 0);
+        CHECK.thrown("it has none", NONE, () -> board.netAt(0));
     }
 
     /** "all cells [..] from which no pad and no item of another net [..] is too near" */

@@ -27,14 +27,17 @@ public final class EdgeLookTest {
         islandsOfALayer();
         mostIslands();
         pouredAsNow();
+        eachLookPoursAnew();
         joinedWithItself();
         joinedInOneStep();
         joinedInManySteps();
         joinedByASingleCell();
         joinedAtTheSides();
         joinedByNumbersOfCells();
+        joinedInTheFirstCell();
         joinedByLayers();
         joinedByIslands();
+        joinedInAllCorners();
         opensFromNoneToAll();
         shortsFromNoneToAll();
         shortsOfPairs();
@@ -48,6 +51,7 @@ public final class EdgeLookTest {
         pathsThatGoTwice();
         pathsBesideTheWay();
         pathsAndPouredCopper();
+        pathsOfLiftedPads();
         holesFromNoneToNine();
         holesThatAreNone();
         holesFarAndNear();
@@ -310,6 +314,25 @@ public final class EdgeLookTest {
         CHECK.same("behind route", board.poured(0), 274);
     }
 
+    /** Each of the calls that look at poured copper pours, whether another one has done so or not. */
+    private static void eachLookPoursAnew() {
+        CHECK.same("netAt", pouredOver().netAt(0), 0);
+        CHECK.same("poured", pouredOver().poured(0), 280);
+        CHECK.same("islands", pouredOver().islands(0), 1);
+        CHECK.same("areJoined", pouredOver().areJoined(0, 1), true);
+        CHECK.same("areJoinedByPaint", pouredOver().areJoinedByPaint(0, 1), true);
+        CHECK.same("opens", pouredOver().opens(1), 0);
+        CHECK.same("joinedShare", pouredOver().joinedShare(), 1f);
+        CHECK.same("isAsDrawn", pouredOver().isAsDrawn(), true);
+        CHECK.same("isConsistent", pouredOver().isConsistent(), true);
+    }
+
+    private static Coppertrace pouredOver() {
+        Coppertrace board = Boards.wired(false, 2, 5, 6, 5);
+        board.pour(0, 0, 0, 0, 19, 13);
+        return board;
+    }
+
     private static void joinedWithItself() {
         Coppertrace board = Boards.singles(2, true);
         both(board, 0, 0, false, "itself, not placed");
@@ -380,6 +403,20 @@ public final class EdgeLookTest {
         both(board, 0, 1, false, "the last cell of the layer 0, the first one of the layer 1");
     }
 
+    /** What an erased track has joined in the first cell is not joined any more. */
+    private static void joinedInTheFirstCell() {
+        Coppertrace board = Boards.wired(false, 0, 0, 2, 0);
+        board.track(0, 0, 0, 0, 3, false);
+        both(board, 0, 1, true, "along the first row");
+        board.erase(0);
+        board.track(0, 0, 1, 0, 2, false);
+        both(board, 0, 1, false, "without the first step");
+        board.via(0, 0, 0);
+        both(board, 0, 1, false, "with a via in the first cell");
+        board.track(0, 0, 0, 0, 2, false);
+        both(board, 0, 1, true, "with the first step");
+    }
+
     /** "if they are the two cells of a via or of a pad that goes through" */
     private static void joinedByLayers() {
         Coppertrace surface = Boards.wired(false, 2, 5, 6, 5);
@@ -413,6 +450,26 @@ public final class EdgeLookTest {
         board.erase(0);
         board.track(0, 0, 9, 13, 2, false);
         both(board, 0, 1, true, "and a track between them");
+    }
+
+    private static void joinedInAllCorners() {
+        for (int layer = 0; layer <= 1; layer++) {
+            Coppertrace board = Boards.wired(true, 0, 0, 19, 0, 0, 13, 19, 13);
+            board.setWire(1, 2, true);
+            board.setWire(2, 3, true);
+            board.pour(3, layer, 0, 0, 19, 13);
+            for (int pin = 1; pin < 4; pin++) {
+                both(board, 0, pin, true, "by copper of a whole layer");
+            }
+            Coppertrace sides = Boards.wired(true, 0, 0, 19, 13);
+            sides.pour(0, layer, 0, 0, 19, 0);
+            sides.pour(0, layer, 19, 0, 19, 13);
+            both(sides, 0, 1, true, "along two sides");
+            Coppertrace others = Boards.wired(true, 0, 0, 19, 13);
+            others.pour(1, layer, 0, 0, 0, 13);
+            others.pour(1, layer, 0, 13, 19, 13);
+            both(others, 0, 1, true, "along the other two sides");
+        }
     }
 
     /** "the groups in which its placed pads are joined, less 1, 0 if none is placed" */
@@ -538,6 +595,10 @@ public final class EdgeLookTest {
         CHECK.same("three groups", board.airLength(), 19 + 22);
         board.track(0, 0, 0, 0, 20, false);
         CHECK.same("two groups: from the nearer pad, not from the track", board.airLength(), 22);
+        board.pour(0, 0, 0, 0, 19, 13);
+        CHECK.same("poured copper joins none of them", board.airLength(), 22);
+        CHECK.same("nor for place", board.place(2, 10, 12, 0), 21);
+        board.place(2, 10, 13, 0);
         board.route(0, 2);
         CHECK.same("one group", board.airLength(), 0);
         board.erase(0);
@@ -647,6 +708,19 @@ public final class EdgeLookTest {
         CHECK.thrown("but not so", NONE, () -> board.path(0, 1));
         board.track(0, 0, 2, 5, 5, false);
         CHECK.same("it is no second way", board.path(0, 1), 4);
+    }
+
+    /** "or one is not placed" */
+    private static void pathsOfLiftedPads() {
+        Coppertrace board = Boards.wired(false, 2, 5, 6, 5);
+        board.track(0, 0, 2, 5, 5, false);
+        board.lift(1);
+        CHECK.thrown("to where a pad has been", NONE, () -> board.path(0, 1));
+        CHECK.thrown("from where a pad has been", NONE, () -> board.path(1, 0));
+        CHECK.same("not joined", board.areJoined(0, 1) || board.areJoinedByPaint(0, 1), false);
+        CHECK.same("not joined the other way round", board.areJoined(1, 0) || board.areJoinedByPaint(1, 0), false);
+        board.place(1, 6, 5, 3);
+        CHECK.same("placed again", board.path(0, 1), 4);
     }
 
     /** "0 for fewer than two holes", "if there are more than 9 holes" */

@@ -14,12 +14,15 @@ public final class EdgeSearchTest {
         shortestWay();
         wayOfOneVia();
         longestStraightWay();
+        shorterWayBehindALongerOne();
         fromCornerToCorner();
         noWayOverTheSides();
         noWayFromLayerToLayerByNumber();
         alongTheSides();
         tollsOfStepsAndLayers();
         nearTheWay();
+        nearTheFirstPad();
+        nearTheSides();
         nearTheEnd();
         nearTheBeginning();
         nearALayerChange();
@@ -31,6 +34,7 @@ public final class EdgeSearchTest {
         pouredCopperAside();
         itemsOfTheFirstPin();
         lastItemsOfAWay();
+        lastItemsOfAWayWithVias();
         refusedWaysMakeNothing();
         nothingToDo();
         roundsThatAreAllowed();
@@ -44,9 +48,11 @@ public final class EdgeSearchTest {
         pricesAgainstWaysRound();
         priceOnlyWhereItemsAreNear();
         priceOfTheLastCell();
+        noPriceOfTheBeginning();
         noPriceWhereLockedOnesAre();
         rippedJustWithinTheGap();
         rippedInItsLayerOnly();
+        notRippedFarAway();
         lockedOnesStay();
         itemsUsedUpEndAllAtOnce();
         itemsUsedUpBehindAWay();
@@ -89,6 +95,20 @@ public final class EdgeSearchTest {
         Coppertrace up = Boards.wired(false, 19, 0, 19, 13);
         CHECK.same("13 steps", up.route(0, 1), 26);
         CHECK.same("of 14 cells", up.cellOf(0, 0) == 19 && up.cellOf(0, 13) == 279, true);
+    }
+
+    /** Nothing of a longer way is left in a shorter one with the same cells. */
+    private static void shorterWayBehindALongerOne() {
+        Coppertrace board = Boards.wired(false, 2, 5, 16, 5);
+        CHECK.same("the longer one", board.route(0, 1), 28);
+        board.erase(0);
+        board.place(0, 8, 5, 0);
+        CHECK.same("the shorter one", board.route(0, 1), 16);
+        CHECK.same("its cells", Boards.told(board, 1), "t 108 109 110 111 112 113 114 115 116");
+        board.erase(1);
+        board.place(0, 14, 5, 0);
+        CHECK.same("one round", board.routeAll(1), 1);
+        CHECK.same("the shortest one's cells", Boards.told(board, 2), "t 114 115 116");
     }
 
     private static void fromCornerToCorner() {
@@ -149,6 +169,46 @@ public final class EdgeSearchTest {
                 CHECK.same("nothing is too near", board.gaps(), 0);
             }
         }
+    }
+
+    /** Pads of all pins close cells, the first one too, and items of all numbers. */
+    private static void nearTheFirstPad() {
+        Coppertrace pad = Boards.placed(true, 4, 5, 2, 5, 6, 5);
+        pad.setWire(1, 2, true);
+        CHECK.same("round the first pad", pad.route(1, 2), 12);
+        Coppertrace item = Boards.wired(true, 2, 5, 6, 5);
+        item.addPart(0, 1, true);
+        for (int number = 0; number < 149; number++) {
+            item.via(2, 19, 13);
+        }
+        item.via(2, 8, 5);
+        CHECK.thrown("there is a way, but no number", STATE, () -> item.route(0, 1));
+        item.setGap(2, 2);
+        CHECK.thrown("the last item closes the end", NONE, () -> item.route(0, 1));
+    }
+
+    /** What is at a side of the board closes the cells there, and none at the other side. */
+    private static void nearTheSides() {
+        int[][] between = {{0, 4}, {19, 4}, {4, 0}, {4, 13}};
+        for (int side = 0; side < 4; side++) {
+            int column = between[side][0];
+            int row = between[side][1];
+            int right = side < 2 ? 0 : 3;
+            int up = side < 2 ? 3 : 0;
+            for (int gap = 0; gap <= 2; gap++) {
+                Coppertrace board = Boards.wired(true, column - right, row - up, column + right, row + up, column, row);
+                board.setGap(2, gap);
+                CHECK.same("round it at the side " + side, board.route(0, 1), 12 + 4 * (gap + 1));
+            }
+        }
+        Coppertrace other = Boards.wired(true, 0, 2, 0, 8, 19, 5);
+        other.setGap(2, 2);
+        CHECK.same("at the other side", other.route(0, 1), 12);
+        CHECK.same("in a straight line", other.items(), 1);
+        Coppertrace rows = Boards.wired(true, 2, 0, 8, 0, 5, 13);
+        rows.setGap(2, 2);
+        CHECK.same("at the upper side", rows.route(0, 1), 12);
+        CHECK.same("in a straight line too", rows.items(), 1);
     }
 
     /** "in their layer, also at its end" */
@@ -290,6 +350,24 @@ public final class EdgeSearchTest {
             } else {
                 CHECK.same("two items, left are two", board.route(0, 1), 12);
                 CHECK.same("the last item", board.kindOf(149), 't');
+            }
+        }
+    }
+
+    /** A way of a via, a track, a via and a track takes four numbers, its first item as well as its last one. */
+    private static void lastItemsOfAWayWithVias() {
+        for (int left = 3; left <= 4; left++) {
+            Coppertrace board = Boards.wired(false, 2, 5, 6, 5, 19, 0);
+            board.track(2, 0, 4, 0, 14, true);
+            for (int item = 1; item < 150 - left; item++) {
+                board.via(2, 19, 0);
+            }
+            if (left == 3) {
+                CHECK.thrown("four items, left are three", STATE, () -> board.route(0, 1));
+            } else {
+                CHECK.same("four items, left are four", board.route(0, 1), 18);
+                CHECK.same("the first one", Boards.told(board, 146), "v 106 386");
+                CHECK.same("the last one", Boards.told(board, 149), "t 102 103");
             }
         }
     }
@@ -483,6 +561,22 @@ public final class EdgeSearchTest {
         }
     }
 
+    /** The way goes to all of its cells but the one where it begins. */
+    private static void noPriceOfTheBeginning() {
+        for (int from = 0; from <= 1; from++) {
+            Coppertrace board = Boards.singles(3, false);
+            board.setWire(0, 1, true);
+            board.place(from, 2, 5, 0);
+            board.place(1 - from, 6, 5, 0);
+            board.track(2, 0, 0, 5, 2, false);
+            board.setGap(2, 1);
+            board.routeAll(1);
+            CHECK.same("the pad by the item", board.price(102), from == 0 ? 10 : 20);
+            CHECK.same("the other pad", board.price(106), 10);
+            CHECK.same("what is too near to it is gone", board.ripped(), 1);
+        }
+    }
+
     /** One locked item or one pad near a cell closes it, whatever else is near. */
     private static void noPriceWhereLockedOnesAre() {
         Coppertrace board = Boards.wired(false, 5, 0, 7, 0, 19, 13);
@@ -530,6 +624,18 @@ public final class EdgeSearchTest {
         CHECK.same("in the other layer", board.kindOf(0), 't');
         CHECK.same("in its way, twice", board.kindOf(1) == '-' && board.kindOf(3) == '-', true);
         CHECK.same("only next to it", board.kindOf(2), 't');
+    }
+
+    private static void notRippedFarAway() {
+        Coppertrace board = Boards.placed(false, 19, 13, 10, 7, 14, 7);
+        board.addPart(0, 1, false);
+        board.setWire(1, 2, true);
+        board.via(3, 0, 0);
+        board.track(3, 1, 18, 0, 2, false);
+        board.track(3, 0, 0, 13, 2, false);
+        CHECK.same("one round", board.routeAll(1), 1);
+        CHECK.same("nothing near", board.ripped(), 0);
+        CHECK.same("all of them and the way", board.items(), 4);
     }
 
     /** "An item that is locked is never taken away by a search." */
