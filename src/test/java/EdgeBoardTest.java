@@ -565,6 +565,11 @@ public final class EdgeBoardTest {
         board.lift(0);
         CHECK.same("where a pad has been", board.poured(0), 0);
         CHECK.thrown("it has none", NONE, () -> board.netAt(0));
+        Coppertrace first = Boards.placed(false, 1, 0, 19, 13);
+        first.pour(0, 0, 0, 0, 1, 0);
+        first.pour(1, 0, 0, 0, 19, 13);
+        CHECK.same("an earlier area with the first cell", first.poured(0), 2);
+        CHECK.same("closes it for a later one", first.poured(1), 278);
     }
 
     /** "all cells [..] from which no pad and no item of another net [..] is too near" */

@@ -317,6 +317,10 @@ public final class EdgeLookTest {
     /** Each of the calls that look at poured copper pours, whether another one has done so or not. */
     private static void eachLookPoursAnew() {
         CHECK.same("netAt", pouredOver().netAt(0), 0);
+        Coppertrace dropped = pouredOver();
+        dropped.lift(0);
+        dropped.lift(1);
+        CHECK.thrown("netAt of what is dropped", NONE, () -> dropped.netAt(0));
         CHECK.same("poured", pouredOver().poured(0), 280);
         CHECK.same("islands", pouredOver().islands(0), 1);
         CHECK.same("areJoined", pouredOver().areJoined(0, 1), true);
@@ -325,6 +329,19 @@ public final class EdgeLookTest {
         CHECK.same("joinedShare", pouredOver().joinedShare(), 1f);
         CHECK.same("isAsDrawn", pouredOver().isAsDrawn(), true);
         CHECK.same("isConsistent", pouredOver().isConsistent(), true);
+        CHECK.same("poured beside", pouredBeside().poured(0), 70);
+        CHECK.same("areJoined beside", pouredBeside().areJoined(0, 1), false);
+        CHECK.same("areJoinedByPaint beside", pouredBeside().areJoinedByPaint(0, 1), false);
+        CHECK.same("opens beside", pouredBeside().opens(1), 1);
+        CHECK.same("joinedShare beside", pouredBeside().joinedShare(), 0f);
+        CHECK.same("isAsDrawn beside", pouredBeside().isAsDrawn(), false);
+        CHECK.thrown("netAt beside", NONE, () -> pouredBeside().netAt(5));
+    }
+
+    private static Coppertrace pouredBeside() {
+        Coppertrace board = Boards.wired(false, 2, 5, 6, 5);
+        board.pour(0, 0, 0, 0, 4, 13);
+        return board;
     }
 
     private static Coppertrace pouredOver() {
