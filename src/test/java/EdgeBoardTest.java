@@ -47,6 +47,7 @@ public final class EdgeBoardTest {
         firstCellOfAreas();
         pouringRoundPads();
         pouringRoundEarlierAreas();
+        pouringInBothLayers();
         System.exit(CHECK.end());
     }
 
@@ -607,5 +608,16 @@ public final class EdgeBoardTest {
                 CHECK.same("as if it were not told", board.poured(1), 280);
             }
         }
+    }
+
+    private static void pouringInBothLayers() {
+        Coppertrace board = Boards.placed(false, 3, 3);
+        board.addPart(0, 1, false);
+        board.track(1, 1, 3, 3, 2, true);
+        board.setGap(1, 2);
+        board.pour(0, 0, 0, 0, 19, 13);
+        board.pour(1, 1, 0, 0, 19, 13);
+        CHECK.same("the layer 0", board.poured(0), 280);
+        CHECK.same("the layer 1, whatever the other one has", board.poured(1), 280);
     }
 }

@@ -41,10 +41,12 @@ public final class EdgeLookTest {
         opensFromNoneToAll();
         shortsFromNoneToAll();
         shortsOfPairs();
+        shortsByPouredCopper();
         gapsFromNoneToAll();
         gapsOfOwnPart();
         airFromNoneToAll();
         airOfGroups();
+        airAsATree();
         airBesidesOtherNets();
         shortestPath();
         longestPath();
@@ -553,6 +555,20 @@ public final class EdgeLookTest {
         CHECK.same("an item is no pad", board.shorts(), 0);
     }
 
+    /** Pads of two nets can be joined by copper that is poured, where an item of its net is over a pad. */
+    private static void shortsByPouredCopper() {
+        Coppertrace board = Boards.wired(false, 2, 5, 12, 5);
+        board.track(0, 0, 10, 5, 3, false);
+        board.setWire(0, 1, false);
+        CHECK.same("the track is over one of them alone", board.shorts(), 0);
+        CHECK.same("which is as drawn", board.isAsDrawn(), true);
+        board.pour(0, 0, 0, 0, 19, 13);
+        CHECK.same("poured copper joins it with the other one", board.shorts(), 1);
+        CHECK.same("which is not as drawn", board.isAsDrawn(), false);
+        both(board, 0, 1, true, "pads of two nets");
+        CHECK.same("consistent all the same", board.isConsistent(), true);
+    }
+
     private static void gapsFromNoneToAll() {
         Coppertrace board = Boards.placed(false, 0, 0, 2, 0, 4, 0);
         CHECK.same("none", board.gaps(), 0);
@@ -620,6 +636,17 @@ public final class EdgeLookTest {
         CHECK.same("one group", board.airLength(), 0);
         board.erase(0);
         CHECK.same("two groups again", board.airLength() > 0, true);
+    }
+
+    /** "the least sum of lengths that join all groups" */
+    private static void airAsATree() {
+        Coppertrace board = Boards.wired(false, 10, 5, 0, 5, 19, 5, 10, 0, 10, 13);
+        for (int pin = 1; pin < 4; pin++) {
+            board.setWire(pin, pin + 1, true);
+        }
+        CHECK.same("from the middle to each side", board.airLength(), 10 + 9 + 5 + 8);
+        board.lift(0);
+        CHECK.same("without the middle", board.airLength(), 13 + 14 + 15);
     }
 
     private static void airBesidesOtherNets() {

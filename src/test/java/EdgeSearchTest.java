@@ -45,11 +45,15 @@ public final class EdgeSearchTest {
         pouredCopperOfRounds();
         pricesAtFirst();
         pricesThatGrow();
+        priceThatGrowsTwice();
+        grownPricesLeadAway();
         pricesAgainstWaysRound();
         priceOnlyWhereItemsAreNear();
         priceOfTheLastCell();
         noPriceOfTheBeginning();
+        nearBeginningsCostNothing();
         noPriceWhereLockedOnesAre();
+        noPriceForPads();
         rippedJustWithinTheGap();
         rippedInItsLayerOnly();
         notRippedFarAway();
@@ -518,6 +522,49 @@ public final class EdgeSearchTest {
         CHECK.same("one item for each, if ways are straight", board.ripped() >= 11, true);
     }
 
+    /** Where there is no other way, an item is in the same cell's way for a price of 10, of 20 and so on. */
+    private static void priceThatGrowsTwice() {
+        Coppertrace board = Boards.wired(false, 0, 0, 2, 0, 19, 13);
+        board.track(2, 0, 0, 1, 3, false);
+        board.track(2, 1, 0, 0, 3, false);
+        board.setLocked(0, true);
+        board.setLocked(1, true);
+        for (int time = 1; time <= 6; time++) {
+            int item = board.via(2, 1, 0);
+            CHECK.same("one round", board.routeAll(1), 1);
+            CHECK.same("its price, time " + time, board.price(1), 10 + 10 * time);
+            CHECK.same("the item is gone", board.kindOf(item), '-');
+            CHECK.same("the way", Boards.told(board, item + 1), "t 0 1 2");
+            board.erase(item + 1);
+        }
+        CHECK.same("the prices of the others", board.price(0) == 10 && board.price(2) == 10, true);
+        CHECK.same("what was taken away", board.ripped(), 6);
+    }
+
+    /** A wall that comes again is gone through where its cells have cost least so far. */
+    private static void grownPricesLeadAway() {
+        Coppertrace board = Boards.wired(false, 2, 5, 6, 5, 19, 0);
+        board.track(2, 1, 4, 0, 14, true);
+        board.setLocked(0, true);
+        // The row 5 costs 18, 28; the rows 4 and 6 cost 22, 32; the row 3 costs 26.
+        int[] due = {104, 84, 124, 64};
+        for (int time = 0; time < 4; time++) {
+            int wall = board.track(2, 0, 4, 0, 14, true);
+            CHECK.same("one round through the wall", board.routeAll(1), 1);
+            CHECK.same("where it costs least, time " + time, board.netAt(due[time]), 0);
+            CHECK.same("its price", board.price(due[time]), 20);
+            CHECK.same("the wall is gone", board.kindOf(wall), '-');
+            eraseBehind(board, wall);
+        }
+    }
+
+    private static void eraseBehind(Coppertrace board, int item) {
+        int last = board.via(0, 19, 13);
+        for (int number = item + 1; number <= last; number++) {
+            board.erase(number);
+        }
+    }
+
     /** "for a further toll of its price" */
     private static void pricesAgainstWaysRound() {
         for (int high = 2; high <= 4; high++) {
@@ -577,6 +624,17 @@ public final class EdgeSearchTest {
         }
     }
 
+    /** Of two cells where a way may begin, the nearer one is taken, though an item is too near to it. */
+    private static void nearBeginningsCostNothing() {
+        Coppertrace board = Boards.wired(false, 6, 5, 12, 5, 19, 0);
+        board.track(0, 0, 6, 2, 4, true);
+        board.track(2, 0, 4, 6, 2, false);
+        board.setGap(2, 1);
+        CHECK.same("one round", board.routeAll(1), 1);
+        CHECK.same("straight on from the pad", Boards.told(board, 2), "t 106 107 108 109 110 111 112");
+        CHECK.same("what was too near is gone", board.kindOf(1), '-');
+    }
+
     /** One locked item or one pad near a cell closes it, whatever else is near. */
     private static void noPriceWhereLockedOnesAre() {
         Coppertrace board = Boards.wired(false, 5, 0, 7, 0, 19, 13);
@@ -590,6 +648,17 @@ public final class EdgeSearchTest {
         CHECK.same("a closed one", board.price(6) == 10 && board.price(26) == 10, true);
         CHECK.same("the unlocked one is gone", board.kindOf(0), '-');
         CHECK.same("the locked ones are not", board.kindOf(1) == 't' && board.kindOf(2) == 't', true);
+    }
+
+    /** Pads close cells for rounds too: round them are 12 more, through them would be 10 more. */
+    private static void noPriceForPads() {
+        Coppertrace board = Boards.wired(true, 2, 5, 6, 5);
+        board.addPart(0, 6, true);
+        board.place(2, 4, 3, 1);
+        CHECK.same("one round", board.routeAll(1), 1);
+        CHECK.same("nothing is too near", board.gaps(), 0);
+        CHECK.same("below the lowest pad", board.netAt(44), 0);
+        CHECK.same("prices stay", board.price(44) == 10 && board.price(104) == 10, true);
     }
 
     /** "each item of another net that is too near to a new one is taken away" */
