@@ -759,6 +759,8 @@ public final class EdgeSearchTest {
         CHECK.same("none at first", board.ripped(), 0);
         board.routeAll(1);
         CHECK.same("one", board.ripped(), 1);
+        CHECK.same("which is not there any more", board.kindOf(14), '-');
+        CHECK.same("so it can't be erased", board.erase(14), false);
         board.erase(0);
         CHECK.same("erased ones do not count", board.ripped(), 1);
         board.routeAll(1);

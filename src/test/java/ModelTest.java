@@ -34,14 +34,16 @@ public final class ModelTest {
 
     private final String[] acts;
     private final boolean isCrowded;
+    private final boolean isFull;
 
     private ModelTest(long seed) {
         random = new Random(seed);
         acts = seed % 4 == 1 ? SEARCHES : seed % 4 == 2 ? LOOPS : ACTS;
         isCrowded = seed % 8 == 1 || seed % 8 == 3;
+        isFull = seed % 32 == 4;
         // Small corners of the board make copper meet more often.
-        width = acts == LOOPS ? 6 + random.nextInt(4) : 4 + random.nextInt(17);
-        height = acts == LOOPS ? 5 + random.nextInt(4) : 4 + random.nextInt(11);
+        width = isFull ? 20 : acts == LOOPS ? 6 + random.nextInt(4) : 4 + random.nextInt(17);
+        height = isFull ? 14 : acts == LOOPS ? 5 + random.nextInt(4) : 4 + random.nextInt(11);
         isWild = random.nextInt(4) == 0;
     }
 
@@ -65,6 +67,9 @@ public final class ModelTest {
     }
 
     private void run() {
+        if (isFull) {
+            fillBoard();
+        }
         int parts = acts == LOOPS ? 2 + random.nextInt(2) : 1 + random.nextInt(8);
         for (int k = 0; k < parts && wrong == 0; k++) {
             call("addPart", random.nextInt(3), 1 + random.nextInt(random.nextBoolean() ? 2 : 6), random.nextBoolean());
@@ -89,7 +94,7 @@ public final class ModelTest {
             }
         }
         int length = 20 + random.nextInt(60);
-        for (int k = 0; k < length && wrong == 0 && calls < 500; k++) {
+        for (int k = 0; k < length && wrong == 0 && calls < 480; k++) {
             callAny(acts[random.nextInt(acts.length)]);
             if (random.nextInt(5) == 0) {
                 callAny(SHEET[random.nextInt(SHEET.length)]);
@@ -103,6 +108,30 @@ public final class ModelTest {
             if (wrong == 0) {
                 callAny(look);
             }
+        }
+    }
+
+    /** All twelve parts, four areas and most of the 150 items, before anything else is called. */
+    private void fillBoard() {
+        for (int part = 0; part < 12; part++) {
+            call("addPart", random.nextInt(3), 6, random.nextBoolean());
+            for (int pin = 6 * part; pin < 6 * part + 6 && random.nextInt(4) > 0; pin++) {
+                call("setName", pin, "abcdABCD".charAt(random.nextInt(8)));
+            }
+        }
+        for (int k = 0; k < 4; k++) {
+            callAny("pour");
+        }
+        for (int k = 0; k < 60; k++) {
+            callAny("place");
+        }
+        for (int k = 0; k < 60; k++) {
+            callAny(random.nextBoolean() ? "track" : "via");
+        }
+        int most = 110 + random.nextInt(40);
+        for (int k = 0; k < 70 && model.made.size() < most; k++) {
+            callAny("via");
+            call("erase", Math.max(0, model.made.size() - 1));
         }
     }
 
