@@ -37,7 +37,7 @@ public final class BoardTest {
                 if (isThrough) {
                     CHECK.same("pad on the layer 1", board.netAt(280 + cell), 2);
                 } else {
-                    CHECK.refused("no pad on the layer 1", board, java.util.NoSuchElementException.class,
+                    CHECK.thrown("no pad on the layer 1", java.util.NoSuchElementException.class,
                             () -> board.netAt(280 + cell));
                 }
             }
@@ -50,16 +50,16 @@ public final class BoardTest {
         int[][] wrong = {{-1, 0, 0}, {20, 0, 0}, {0, -1, 0}, {0, 14, 0}, {0, 0, -1}, {0, 0, 4},
             {Integer.MAX_VALUE, 0, 0}, {0, Integer.MIN_VALUE, 0}};
         for (int[] at : wrong) {
-            CHECK.refused("place out of range", board, ILLEGAL, () -> board.place(0, at[0], at[1], at[2]));
-            CHECK.refused("place of no part", board, NO_SUCH, () -> board.place(1, at[0], at[1], at[2]));
+            CHECK.thrown("place out of range", ILLEGAL, () -> board.place(0, at[0], at[1], at[2]));
+            CHECK.thrown("place of no part", NO_SUCH, () -> board.place(1, at[0], at[1], at[2]));
         }
-        CHECK.refused("place of part -1", board, NO_SUCH, () -> board.place(-1, 0, 0, 0));
+        CHECK.thrown("place of part -1", NO_SUCH, () -> board.place(-1, 0, 0, 0));
         int[][] outside = {{15, 0, 0}, {0, 9, 1}, {4, 0, 2}, {0, 4, 3}};
         int[][] inside = {{14, 0, 0}, {0, 8, 1}, {5, 0, 2}, {0, 5, 3}};
         for (int k = 0; k < 4; k++) {
             int[] out = outside[k];
             int[] in = inside[k];
-            CHECK.refused("pads off the board", board, UNSUPPORTED, () -> board.place(0, out[0], out[1], out[2]));
+            CHECK.thrown("pads off the board", UNSUPPORTED, () -> board.place(0, out[0], out[1], out[2]));
             CHECK.same("pads just on the board", board.place(0, in[0], in[1], in[2]), 0);
         }
         CHECK.same("where it was before is free", board.lift(0), true);
@@ -74,14 +74,14 @@ public final class BoardTest {
         board.place(0, 5, 5, 0);
         int[][] near = {{7, 5, 0}, {3, 5, 0}, {5, 6, 0}, {7, 6, 1}, {4, 4, 2}, {5, 5, 0}, {8, 5, 2}};
         for (int[] at : near) {
-            CHECK.refused("nearer than 2 to another part's pad", board, UNSUPPORTED,
+            CHECK.thrown("nearer than 2 to another part's pad", UNSUPPORTED,
                     () -> board.place(1, at[0], at[1], at[2]));
         }
         CHECK.same("just 2 away to the right", board.place(1, 8, 5, 0), 3);
         CHECK.same("just 2 away above", board.place(1, 5, 7, 0), 2);
         CHECK.same("near to its own old pads", board.place(1, 6, 7, 0), 3);
         CHECK.same("again at the same place", board.place(1, 6, 7, 0), 3);
-        CHECK.refused("kept where it was", board, UNSUPPORTED, () -> board.place(1, 19, 0, 0));
+        CHECK.thrown("kept where it was", UNSUPPORTED, () -> board.place(1, 19, 0, 0));
         CHECK.same("still there", board.netAt(7 * 20 + 6), 0);
         // Gaps are left aside between pads: these are too near to each other, but may stand so.
         board.setGap(1, 2);
@@ -94,18 +94,18 @@ public final class BoardTest {
         board.addPart(0, 1, true);
         board.track(0, 1, 3, 5, 4, false);
         CHECK.same("a surface pad over a track of the layer 1", board.place(1, 4, 5, 0), 0);
-        CHECK.refused("a through pad over it", board, UNSUPPORTED, () -> board.place(2, 6, 5, 0));
+        CHECK.thrown("a through pad over it", UNSUPPORTED, () -> board.place(2, 6, 5, 0));
         CHECK.same("a through pad next to it, gap 0", board.place(2, 7, 5, 0), 0);
         board.setGap(2, 1);
-        CHECK.refused("next to it, gap 1", board, UNSUPPORTED, () -> board.place(2, 7, 4, 0));
+        CHECK.thrown("next to it, gap 1", UNSUPPORTED, () -> board.place(2, 7, 4, 0));
         CHECK.same("farther than the gap", board.place(2, 8, 4, 0), 0);
         board.setGap(0, 2);
-        CHECK.refused("the greater gap of both nets counts", board, UNSUPPORTED, () -> board.place(2, 8, 4, 0));
+        CHECK.thrown("the greater gap of both nets counts", UNSUPPORTED, () -> board.place(2, 8, 4, 0));
         board.setWire(0, 2, true);
         CHECK.same("items of its own net do not matter", board.place(2, 6, 5, 0), 0);
         board.lift(2);
         board.track(1, 0, 10, 10, 2, true);
-        CHECK.refused("a track of another net", board, UNSUPPORTED, () -> board.place(2, 8, 9, 0));
+        CHECK.thrown("a track of another net", UNSUPPORTED, () -> board.place(2, 8, 9, 0));
         board.erase(1);
         CHECK.same("an erased one", board.place(2, 8, 9, 0), 0);
     }
@@ -116,12 +116,12 @@ public final class BoardTest {
         CHECK.same("not placed", board.lift(1), false);
         CHECK.same("placed", board.lift(0), true);
         CHECK.same("lifted already", board.lift(0), false);
-        CHECK.refused("its pad is gone", board, java.util.NoSuchElementException.class, () -> board.netAt(63));
+        CHECK.thrown("its pad is gone", java.util.NoSuchElementException.class, () -> board.netAt(63));
         CHECK.same("its place is free", board.place(1, 3, 3, 2), 0);
         board.track(1, 0, 3, 3, 5, false);
         CHECK.same("items stay behind a lift", board.lift(1) && board.items() == 1, true);
-        CHECK.refused("lift of part 2", board, NO_SUCH, () -> board.lift(2));
-        CHECK.refused("lift of part -1", board, NO_SUCH, () -> board.lift(-1));
+        CHECK.thrown("lift of part 2", NO_SUCH, () -> board.lift(2));
+        CHECK.thrown("lift of part -1", NO_SUCH, () -> board.lift(-1));
     }
 
     private static void setGap() {
@@ -139,10 +139,10 @@ public final class BoardTest {
         CHECK.same("2 away is enough for 1", board.gaps(), 0);
         board.setGap(1, 2);
         CHECK.same("the other net's gap", board.gaps(), 1);
-        CHECK.refused("gap 3", board, ILLEGAL, () -> board.setGap(0, 3));
-        CHECK.refused("gap -1", board, ILLEGAL, () -> board.setGap(0, -1));
-        CHECK.refused("gap of pin 3", board, NO_SUCH, () -> board.setGap(3, 3));
-        CHECK.refused("gap of pin -1", board, NO_SUCH, () -> board.setGap(-1, 0));
+        CHECK.thrown("gap 3", ILLEGAL, () -> board.setGap(0, 3));
+        CHECK.thrown("gap -1", ILLEGAL, () -> board.setGap(0, -1));
+        CHECK.thrown("gap of pin 3", NO_SUCH, () -> board.setGap(3, 3));
+        CHECK.thrown("gap of pin -1", NO_SUCH, () -> board.setGap(-1, 0));
     }
 
     private static void track() {
@@ -158,15 +158,15 @@ public final class BoardTest {
             {0, 0, 0, 1}, {0, 0, 0, 0}, {0, 0, 0, -3}, {0, 0, 0, 21}, {0, 0, 0, Integer.MAX_VALUE}};
         for (int[] at : wrong) {
             for (boolean isUp : new boolean[] {false, true}) {
-                CHECK.refused("track out of range", board, ILLEGAL,
+                CHECK.thrown("track out of range", ILLEGAL,
                         () -> board.track(0, at[0], at[1], at[2], at[3], isUp));
-                CHECK.refused("of no pin too", board, NO_SUCH, () -> board.track(1, at[0], at[1], at[2], at[3], isUp));
+                CHECK.thrown("of no pin too", NO_SUCH, () -> board.track(1, at[0], at[1], at[2], at[3], isUp));
             }
         }
-        CHECK.refused("leaves to the right", board, ILLEGAL, () -> board.track(0, 0, 1, 0, 20, false));
-        CHECK.refused("leaves upwards", board, ILLEGAL, () -> board.track(0, 0, 0, 0, 15, true));
-        CHECK.refused("leaves upwards from row 13", board, ILLEGAL, () -> board.track(0, 0, 0, 13, 2, true));
-        CHECK.refused("track of pin -1", board, NO_SUCH, () -> board.track(-1, 0, 0, 0, 2, true));
+        CHECK.thrown("leaves to the right", ILLEGAL, () -> board.track(0, 0, 1, 0, 20, false));
+        CHECK.thrown("leaves upwards", ILLEGAL, () -> board.track(0, 0, 0, 0, 15, true));
+        CHECK.thrown("leaves upwards from row 13", ILLEGAL, () -> board.track(0, 0, 0, 13, 2, true));
+        CHECK.thrown("track of pin -1", NO_SUCH, () -> board.track(-1, 0, 0, 0, 2, true));
         CHECK.same("over its own copper", board.track(0, 0, 0, 0, 20, false), 3);
     }
 
@@ -177,14 +177,14 @@ public final class BoardTest {
         board.place(2, 10, 10, 0);
         board.via(2, 2, 2);
         CHECK.same("through a pad of its own net", board.track(1, 0, 4, 5, 3, false), 1);
-        CHECK.refused("through a pad of another net", board, UNSUPPORTED, () -> board.track(0, 0, 10, 8, 4, true));
+        CHECK.thrown("through a pad of another net", UNSUPPORTED, () -> board.track(0, 0, 10, 8, 4, true));
         CHECK.same("below it on the layer 1", board.track(0, 1, 10, 8, 4, true), 2);
-        CHECK.refused("through a via on the layer 0", board, UNSUPPORTED, () -> board.track(0, 0, 0, 2, 3, false));
-        CHECK.refused("through a via on the layer 1", board, UNSUPPORTED, () -> board.track(0, 1, 0, 2, 3, false));
+        CHECK.thrown("through a via on the layer 0", UNSUPPORTED, () -> board.track(0, 0, 0, 2, 3, false));
+        CHECK.thrown("through a via on the layer 1", UNSUPPORTED, () -> board.track(0, 1, 0, 2, 3, false));
         CHECK.same("next to the via", board.track(0, 1, 0, 2, 2, false), 3);
-        CHECK.refused("across a track of another net", board, UNSUPPORTED, () -> board.track(2, 0, 5, 5, 6, true));
+        CHECK.thrown("across a track of another net", UNSUPPORTED, () -> board.track(2, 0, 5, 5, 6, true));
         board.setGap(2, 1);
-        CHECK.refused("slantwise next to the pad, gap 1", board, UNSUPPORTED, () -> board.track(0, 0, 11, 11, 2, false));
+        CHECK.thrown("slantwise next to the pad, gap 1", UNSUPPORTED, () -> board.track(0, 0, 11, 11, 2, false));
         CHECK.same("two away from the pad, gap 1", board.track(0, 0, 12, 11, 2, false), 4);
         CHECK.same("poured copper does not matter", board.pour(2, 0, 8, 8, 12, 10), 0);
         CHECK.same("through poured copper", board.track(0, 0, 8, 8, 3, false), 5);
@@ -198,17 +198,17 @@ public final class BoardTest {
         CHECK.same("its cell in the layer 1", board.cellOf(0, 1), 559);
         int[][] wrong = {{-1, 0}, {20, 0}, {0, -1}, {0, 14}, {Integer.MAX_VALUE, Integer.MAX_VALUE}};
         for (int[] at : wrong) {
-            CHECK.refused("via out of range", board, ILLEGAL, () -> board.via(0, at[0], at[1]));
-            CHECK.refused("of no pin too", board, NO_SUCH, () -> board.via(3, at[0], at[1]));
+            CHECK.thrown("via out of range", ILLEGAL, () -> board.via(0, at[0], at[1]));
+            CHECK.thrown("of no pin too", NO_SUCH, () -> board.via(3, at[0], at[1]));
         }
-        CHECK.refused("via of pin -1", board, NO_SUCH, () -> board.via(-1, 0, 0));
-        CHECK.refused("in a pad of another net", board, UNSUPPORTED, () -> board.via(0, 5, 5));
+        CHECK.thrown("via of pin -1", NO_SUCH, () -> board.via(-1, 0, 0));
+        CHECK.thrown("in a pad of another net", UNSUPPORTED, () -> board.via(0, 5, 5));
         CHECK.same("in its own pad", board.via(1, 5, 5), 1);
         board.track(2, 1, 0, 9, 6, false);
-        CHECK.refused("on a track of the layer 1", board, UNSUPPORTED, () -> board.via(0, 3, 9));
+        CHECK.thrown("on a track of the layer 1", UNSUPPORTED, () -> board.via(0, 3, 9));
         CHECK.same("next to it", board.via(0, 3, 8), 3);
         board.setGap(2, 2);
-        CHECK.refused("two away, gap 2", board, UNSUPPORTED, () -> board.via(0, 7, 11));
+        CHECK.thrown("two away, gap 2", UNSUPPORTED, () -> board.via(0, 7, 11));
         CHECK.same("three away, gap 2", board.via(0, 8, 12), 4);
     }
 
@@ -221,13 +221,13 @@ public final class BoardTest {
             }
         }
         CHECK.same("a hundred are there", board.items(), 100);
-        CHECK.refused("a via more", board, STATE, () -> board.via(0, 5, 5));
-        CHECK.refused("a track more", board, STATE, () -> board.track(0, 0, 5, 5, 2, true));
-        CHECK.refused("a via too near", board, STATE, () -> board.via(1, 3, 3));
-        CHECK.refused("a track too near", board, STATE, () -> board.track(1, 0, 3, 3, 2, true));
-        CHECK.refused("a via off the board", board, ILLEGAL, () -> board.via(1, 3, 14));
-        CHECK.refused("a track off the board", board, ILLEGAL, () -> board.track(1, 0, 3, 13, 2, true));
-        CHECK.refused("item 150", board, NO_SUCH, () -> board.erase(150));
+        CHECK.thrown("a via more", STATE, () -> board.via(0, 5, 5));
+        CHECK.thrown("a track more", STATE, () -> board.track(0, 0, 5, 5, 2, true));
+        CHECK.thrown("a via too near", STATE, () -> board.via(1, 3, 3));
+        CHECK.thrown("a track too near", STATE, () -> board.track(1, 0, 3, 3, 2, true));
+        CHECK.thrown("a via off the board", ILLEGAL, () -> board.via(1, 3, 14));
+        CHECK.thrown("a track off the board", ILLEGAL, () -> board.track(1, 0, 3, 13, 2, true));
+        CHECK.thrown("item 150", NO_SUCH, () -> board.erase(150));
     }
 
     private static void erase() {
@@ -240,8 +240,8 @@ public final class BoardTest {
         CHECK.same("one is left", board.items(), 1);
         CHECK.same("its number is not given again", board.track(1, 0, 0, 0, 2, false), 2);
         CHECK.same("not counted as taken away by a search", board.ripped(), 0);
-        CHECK.refused("no item 3", board, NO_SUCH, () -> board.erase(3));
-        CHECK.refused("no item -1", board, NO_SUCH, () -> board.erase(-1));
+        CHECK.thrown("no item 3", NO_SUCH, () -> board.erase(3));
+        CHECK.thrown("no item -1", NO_SUCH, () -> board.erase(-1));
     }
 
     private static void setLocked() {
@@ -254,9 +254,9 @@ public final class BoardTest {
         CHECK.same("still locked", board.setLocked(0, false), true);
         CHECK.same("the other one is not", board.setLocked(1, false), false);
         board.erase(1);
-        CHECK.refused("not there any more", board, STATE, () -> board.setLocked(1, true));
-        CHECK.refused("no item 2", board, NO_SUCH, () -> board.setLocked(2, true));
-        CHECK.refused("no item -1", board, NO_SUCH, () -> board.setLocked(-1, true));
+        CHECK.thrown("not there any more", STATE, () -> board.setLocked(1, true));
+        CHECK.thrown("no item 2", NO_SUCH, () -> board.setLocked(2, true));
+        CHECK.thrown("no item -1", NO_SUCH, () -> board.setLocked(-1, true));
     }
 
     private static void pour() {
@@ -264,16 +264,16 @@ public final class BoardTest {
         int[][] wrong = {{-1, 0, 0, 0, 0}, {2, 0, 0, 0, 0}, {0, -1, 0, 0, 0}, {0, 0, -1, 0, 0}, {0, 0, 0, 20, 0},
             {0, 0, 0, 0, 14}, {0, 3, 0, 2, 0}, {0, 0, 3, 0, 2}, {0, 20, 0, 20, 0}, {0, 0, 14, 0, 14}, {0, 0, 0, -1, 0}};
         for (int[] at : wrong) {
-            CHECK.refused("pour out of range", board, ILLEGAL, () -> board.pour(0, at[0], at[1], at[2], at[3], at[4]));
-            CHECK.refused("of no pin too", board, NO_SUCH, () -> board.pour(1, at[0], at[1], at[2], at[3], at[4]));
+            CHECK.thrown("pour out of range", ILLEGAL, () -> board.pour(0, at[0], at[1], at[2], at[3], at[4]));
+            CHECK.thrown("of no pin too", NO_SUCH, () -> board.pour(1, at[0], at[1], at[2], at[3], at[4]));
         }
-        CHECK.refused("pour of pin -1", board, NO_SUCH, () -> board.pour(-1, 0, 0, 0, 1, 1));
+        CHECK.thrown("pour of pin -1", NO_SUCH, () -> board.pour(-1, 0, 0, 0, 1, 1));
         CHECK.same("all of a layer", board.pour(0, 1, 0, 0, 19, 13), 0);
         CHECK.same("a single cell", board.pour(0, 0, 7, 7, 7, 7), 1);
         CHECK.same("a row", board.pour(0, 0, 0, 13, 19, 13), 2);
         CHECK.same("a column", board.pour(0, 0, 19, 0, 19, 13), 3);
-        CHECK.refused("a fifth area", board, STATE, () -> board.pour(0, 0, 0, 0, 1, 1));
-        CHECK.refused("a wrong fifth area", board, ILLEGAL, () -> board.pour(0, 0, 1, 0, 0, 1));
+        CHECK.thrown("a fifth area", STATE, () -> board.pour(0, 0, 0, 0, 1, 1));
+        CHECK.thrown("a wrong fifth area", ILLEGAL, () -> board.pour(0, 0, 1, 0, 0, 1));
         board.via(0, 7, 7);
         CHECK.same("poured all over the layer", board.poured(0), 280);
         CHECK.same("poured one cell", board.poured(1), 1);

@@ -45,17 +45,17 @@ public final class LookTest {
         CHECK.same("upper cell of a via", board.cellOf(1, 1), 280 + 83);
         CHECK.same("lower cell of a via", board.cellOf(1, 0), 83);
         CHECK.same("second cell to the right", board.cellOf(2, 1), 98);
-        CHECK.refused("a third cell of a via", board, NONE, () -> board.cellOf(1, 2));
-        CHECK.refused("a fourth cell of three", board, NONE, () -> board.cellOf(0, 3));
-        CHECK.refused("cell -1", board, NONE, () -> board.cellOf(0, -1));
-        CHECK.refused("a far cell", board, NONE, () -> board.cellOf(0, Integer.MAX_VALUE));
+        CHECK.thrown("a third cell of a via", NONE, () -> board.cellOf(1, 2));
+        CHECK.thrown("a fourth cell of three", NONE, () -> board.cellOf(0, 3));
+        CHECK.thrown("cell -1", NONE, () -> board.cellOf(0, -1));
+        CHECK.thrown("a far cell", NONE, () -> board.cellOf(0, Integer.MAX_VALUE));
         board.erase(0);
         CHECK.same("two items", board.items(), 2);
         CHECK.same("not there any more", board.kindOf(0), '-');
-        CHECK.refused("cell of what is gone", board, NONE, () -> board.cellOf(0, 0));
+        CHECK.thrown("cell of what is gone", NONE, () -> board.cellOf(0, 0));
         for (int item : new int[] {3, -1, 150, Integer.MAX_VALUE, Integer.MIN_VALUE}) {
-            CHECK.refused("kind of item " + item, board, NO_SUCH, () -> board.kindOf(item));
-            CHECK.refused("cell of item " + item, board, NO_SUCH, () -> board.cellOf(item, -1));
+            CHECK.thrown("kind of item " + item, NO_SUCH, () -> board.kindOf(item));
+            CHECK.thrown("cell of item " + item, NO_SUCH, () -> board.cellOf(item, -1));
         }
     }
 
@@ -72,16 +72,16 @@ public final class LookTest {
         CHECK.same("the other pad", board.netAt(106), 1);
         CHECK.same("the item with the lowest number", board.netAt(104), 1);
         CHECK.same("the second item", board.netAt(124), 0);
-        CHECK.refused("the other layer has none", board, NONE, () -> board.netAt(384));
+        CHECK.thrown("the other layer has none", NONE, () -> board.netAt(384));
         board.pour(2, 1, 0, 0, 5, 5);
         board.pour(2, 0, 0, 0, 5, 5);
         board.via(2, 0, 0);
         CHECK.same("poured copper", board.netAt(280 + 63), 2);
         CHECK.same("poured copper of the other layer", board.netAt(63), 2);
-        CHECK.refused("beside the area", board, NONE, () -> board.netAt(280 + 66));
+        CHECK.thrown("beside the area", NONE, () -> board.netAt(280 + 66));
         CHECK.same("an item before an area", board.netAt(104), 1);
         for (int cell : new int[] {-1, 560, Integer.MIN_VALUE}) {
-            CHECK.refused("no cell " + cell, board, NO_SUCH, () -> board.netAt(cell));
+            CHECK.thrown("no cell " + cell, NO_SUCH, () -> board.netAt(cell));
         }
         board.setWire(0, 2, true);
         CHECK.same("the net of now", board.netAt(63), 0);
@@ -106,8 +106,8 @@ public final class LookTest {
         board.via(1, 12, 12);
         CHECK.same("a via does", board.islands(0), 2);
         for (int area : new int[] {-1, 1, 4, Integer.MAX_VALUE}) {
-            CHECK.refused("poured of area " + area, board, NO_SUCH, () -> board.poured(area));
-            CHECK.refused("islands of area " + area, board, NO_SUCH, () -> board.islands(area));
+            CHECK.thrown("poured of area " + area, NO_SUCH, () -> board.poured(area));
+            CHECK.thrown("islands of area " + area, NO_SUCH, () -> board.islands(area));
         }
         Coppertrace corner = Boards.placed(false, 0, 0, 19, 13);
         corner.track(1, 0, 1, 0, 2, false);
@@ -223,10 +223,10 @@ public final class LookTest {
         board.setWire(1, 2, false);
         both(board, 0, 2, true, "of whatever nets");
         for (int pin : new int[] {-1, 4}) {
-            CHECK.refused("areJoined, pin " + pin, board, NO_SUCH, () -> board.areJoined(pin, 0));
-            CHECK.refused("areJoined, other " + pin, board, NO_SUCH, () -> board.areJoined(0, pin));
-            CHECK.refused("by paint, pin " + pin, board, NO_SUCH, () -> board.areJoinedByPaint(pin, 0));
-            CHECK.refused("by paint, other " + pin, board, NO_SUCH, () -> board.areJoinedByPaint(0, pin));
+            CHECK.thrown("areJoined, pin " + pin, NO_SUCH, () -> board.areJoined(pin, 0));
+            CHECK.thrown("areJoined, other " + pin, NO_SUCH, () -> board.areJoined(0, pin));
+            CHECK.thrown("by paint, pin " + pin, NO_SUCH, () -> board.areJoinedByPaint(pin, 0));
+            CHECK.thrown("by paint, other " + pin, NO_SUCH, () -> board.areJoinedByPaint(0, pin));
         }
         Coppertrace through = Boards.placed(true, 2, 5, 6, 5, 4, 5);
         through.setName(0, 'A');
@@ -274,8 +274,8 @@ public final class LookTest {
         board.lift(1);
         board.lift(2);
         CHECK.same("none is placed", board.opens(0), 0);
-        CHECK.refused("opens of pin 4", board, NO_SUCH, () -> board.opens(4));
-        CHECK.refused("opens of pin -1", board, NO_SUCH, () -> board.opens(-1));
+        CHECK.thrown("opens of pin 4", NO_SUCH, () -> board.opens(4));
+        CHECK.thrown("opens of pin -1", NO_SUCH, () -> board.opens(-1));
     }
 
     private static void shorts() {
@@ -349,10 +349,10 @@ public final class LookTest {
         Coppertrace board = Boards.placed(false, 2, 5, 6, 5, 6, 9);
         board.setWire(0, 1, true);
         board.setWire(0, 2, true);
-        CHECK.refused("not joined", board, NONE, () -> board.path(0, 1));
+        CHECK.thrown("not joined", NONE, () -> board.path(0, 1));
         CHECK.same("to itself", board.path(0, 0), 0);
         board.pour(0, 0, 0, 0, 19, 13);
-        CHECK.refused("only by poured copper", board, NONE, () -> board.path(0, 1));
+        CHECK.thrown("only by poured copper", NONE, () -> board.path(0, 1));
         board.track(0, 0, 2, 5, 9, false);
         CHECK.same("along a track", board.path(0, 1), 4);
         board.track(0, 0, 3, 5, 2, false);
@@ -365,14 +365,14 @@ public final class LookTest {
         board.track(0, 0, 8, 5, 3, true);
         CHECK.same("a loop beside the way", board.path(0, 2), 8);
         board.track(0, 0, 6, 7, 3, false);
-        CHECK.refused("a loop on the way", board, UNSUPPORTED, () -> board.path(0, 2));
+        CHECK.thrown("a loop on the way", UNSUPPORTED, () -> board.path(0, 2));
         CHECK.same("not on the way to this one", board.path(0, 1), 4);
         board.lift(1);
-        CHECK.refused("not placed", board, NONE, () -> board.path(0, 1));
-        CHECK.refused("not placed, from there", board, NONE, () -> board.path(1, 0));
-        CHECK.refused("itself, not placed", board, NONE, () -> board.path(1, 1));
-        CHECK.refused("path of pin 3", board, NO_SUCH, () -> board.path(3, 0));
-        CHECK.refused("path to pin -1", board, NO_SUCH, () -> board.path(0, -1));
+        CHECK.thrown("not placed", NONE, () -> board.path(0, 1));
+        CHECK.thrown("not placed, from there", NONE, () -> board.path(1, 0));
+        CHECK.thrown("itself, not placed", NONE, () -> board.path(1, 1));
+        CHECK.thrown("path of pin 3", NO_SUCH, () -> board.path(3, 0));
+        CHECK.thrown("path to pin -1", NO_SUCH, () -> board.path(0, -1));
     }
 
     private static void pathOverBothLayers() {
@@ -385,7 +385,7 @@ public final class LookTest {
         board.track(0, 0, 2, 5, 4, false);
         CHECK.same("a dead end", board.path(0, 1), 6);
         board.track(0, 0, 5, 5, 2, false);
-        CHECK.refused("two ways, one in each layer", board, UNSUPPORTED, () -> board.path(0, 1));
+        CHECK.thrown("two ways, one in each layer", UNSUPPORTED, () -> board.path(0, 1));
         Coppertrace through = Boards.placed(true, 2, 5, 6, 5);
         through.setWire(0, 1, true);
         through.track(0, 0, 2, 5, 5, false);
@@ -419,7 +419,7 @@ public final class LookTest {
         board.via(0, 19, 9);
         CHECK.same("nine holes", board.drillWay(), 43);
         board.via(0, 19, 8);
-        CHECK.refused("ten holes", board, UNSUPPORTED, () -> board.drillWay());
+        CHECK.thrown("ten holes", UNSUPPORTED, () -> board.drillWay());
         board.lift(2);
         CHECK.same("six holes", board.drillWay(), 13 + 7 + 20 + 1);
     }
@@ -439,7 +439,7 @@ public final class LookTest {
 
     private static void joinedShare() {
         Coppertrace board = Boards.placed(false, 2, 5, 6, 5, 10, 5, 14, 5, 2, 9, 6, 9);
-        CHECK.refused("no net of two pins", board, ArithmeticException.class, () -> board.joinedShare());
+        CHECK.thrown("no net of two pins", ArithmeticException.class, () -> board.joinedShare());
         board.setWire(0, 1, true);
         CHECK.same("an open one", board.joinedShare(), 0f);
         board.setWire(2, 3, true);
@@ -454,7 +454,7 @@ public final class LookTest {
 
     private static void meanPins() {
         Coppertrace board = new Coppertrace();
-        CHECK.refused("no nets", board, ArithmeticException.class, () -> board.meanPins());
+        CHECK.thrown("no nets", ArithmeticException.class, () -> board.meanPins());
         board.addPart(0, 5, false);
         CHECK.same("each pin a net", board.meanPins(), 1.0);
         board.setWire(0, 1, true);

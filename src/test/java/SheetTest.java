@@ -26,10 +26,10 @@ public final class SheetTest {
         CHECK.same("track length of nothing", board.trackLength(), 0L);
         CHECK.same("as drawn of nothing", board.isAsDrawn(), true);
         CHECK.same("consistent of nothing", board.isConsistent(), true);
-        CHECK.refused("a pin of nothing", board, NO_SUCH, () -> board.netOf(0));
-        CHECK.refused("a part of nothing", board, NO_SUCH, () -> board.lift(0));
-        CHECK.refused("an item of nothing", board, NO_SUCH, () -> board.erase(0));
-        CHECK.refused("an area of nothing", board, NO_SUCH, () -> board.poured(0));
+        CHECK.thrown("a pin of nothing", NO_SUCH, () -> board.netOf(0));
+        CHECK.thrown("a part of nothing", NO_SUCH, () -> board.lift(0));
+        CHECK.thrown("an item of nothing", NO_SUCH, () -> board.erase(0));
+        CHECK.thrown("an area of nothing", NO_SUCH, () -> board.poured(0));
         Coppertrace other = new Coppertrace();
         other.addPart(0, 6, true);
         CHECK.same("one object's parts in another one", board.nets(), 0);
@@ -39,7 +39,7 @@ public final class SheetTest {
         Coppertrace board = new Coppertrace();
         int[][] wrong = {{-1, 1}, {3, 1}, {0, 0}, {0, 7}, {0, -1}, {Integer.MIN_VALUE, 1}, {0, Integer.MAX_VALUE}};
         for (int[] pair : wrong) {
-            CHECK.refused("addPart out of range", board, ILLEGAL, () -> board.addPart(pair[0], pair[1], true));
+            CHECK.thrown("addPart out of range", ILLEGAL, () -> board.addPart(pair[0], pair[1], true));
         }
         CHECK.same("first part", board.addPart(0, 1, false), 0);
         CHECK.same("second part", board.addPart(2, 6, true), 1);
@@ -48,15 +48,15 @@ public final class SheetTest {
             CHECK.same("part " + part, board.addPart(0, 6, true), 10 + 6 * (part - 3));
         }
         CHECK.same("nets of 64 pins", board.nets(), 64);
-        CHECK.refused("a thirteenth part", board, IllegalStateException.class, () -> board.addPart(0, 1, false));
-        CHECK.refused("a wrong thirteenth part", board, ILLEGAL, () -> board.addPart(0, 7, false));
+        CHECK.thrown("a thirteenth part", IllegalStateException.class, () -> board.addPart(0, 1, false));
+        CHECK.thrown("a wrong thirteenth part", ILLEGAL, () -> board.addPart(0, 7, false));
         CHECK.same("a new part is not placed", board.lift(0), false);
         Coppertrace full = new Coppertrace();
         for (int part = 0; part < 12; part++) {
             CHECK.same("full part", full.addPart(part % 3, 6, false), 6 * part);
         }
         CHECK.same("last pin's net", full.netOf(71), 71);
-        CHECK.refused("pin 72", full, NO_SUCH, () -> full.netOf(72));
+        CHECK.thrown("pin 72", NO_SUCH, () -> full.netOf(72));
     }
 
     private static void setKind() {
@@ -69,10 +69,10 @@ public final class SheetTest {
         CHECK.same("the same again", board.setKind(1, 'p'), 'p');
         CHECK.same("the other pin's own kind", board.setKind(0, 'p'), 'p');
         for (char kind : new char[] {'-', 'I', 'x', ' ', 0, 'u', 'c', 65535}) {
-            CHECK.refused("kind " + (int) kind, board, ILLEGAL, () -> board.setKind(0, kind));
+            CHECK.thrown("kind " + (int) kind, ILLEGAL, () -> board.setKind(0, kind));
         }
-        CHECK.refused("kind of no pin", board, NO_SUCH, () -> board.setKind(2, 'x'));
-        CHECK.refused("kind of pin -1", board, NO_SUCH, () -> board.setKind(-1, 'i'));
+        CHECK.thrown("kind of no pin", NO_SUCH, () -> board.setKind(2, 'x'));
+        CHECK.thrown("kind of pin -1", NO_SUCH, () -> board.setKind(-1, 'i'));
     }
 
     private static void setWire() {
@@ -88,10 +88,10 @@ public final class SheetTest {
         board.setWire(0, 1, true);
         board.setWire(1, 2, true);
         CHECK.same("of one net by two wires is no wire", board.setWire(0, 2, false), false);
-        CHECK.refused("wired with itself", board, ILLEGAL, () -> board.setWire(1, 1, true));
-        CHECK.refused("wire from no pin", board, NO_SUCH, () -> board.setWire(3, 0, true));
-        CHECK.refused("wire to no pin", board, NO_SUCH, () -> board.setWire(0, -1, true));
-        CHECK.refused("wire of no pin with itself", board, NO_SUCH, () -> board.setWire(3, 3, false));
+        CHECK.thrown("wired with itself", ILLEGAL, () -> board.setWire(1, 1, true));
+        CHECK.thrown("wire from no pin", NO_SUCH, () -> board.setWire(3, 0, true));
+        CHECK.thrown("wire to no pin", NO_SUCH, () -> board.setWire(0, -1, true));
+        CHECK.thrown("wire of no pin with itself", NO_SUCH, () -> board.setWire(3, 3, false));
     }
 
     private static void setName() {
@@ -104,10 +104,10 @@ public final class SheetTest {
         CHECK.same("no name again", board.setName(0, '-'), 'Z');
         CHECK.same("none before", board.setName(0, '-'), '-');
         for (char name : new char[] {'`', '{', '@', '[', '0', ' ', '_', 0, 228, 65535}) {
-            CHECK.refused("name " + (int) name, board, ILLEGAL, () -> board.setName(0, name));
+            CHECK.thrown("name " + (int) name, ILLEGAL, () -> board.setName(0, name));
         }
-        CHECK.refused("name of no pin", board, NO_SUCH, () -> board.setName(6, 'a'));
-        CHECK.refused("wrong name of no pin", board, NO_SUCH, () -> board.setName(-1, '!'));
+        CHECK.thrown("name of no pin", NO_SUCH, () -> board.setName(6, 'a'));
+        CHECK.thrown("wrong name of no pin", NO_SUCH, () -> board.setName(-1, '!'));
         board.setName(0, 'q');
         board.setName(2, 'q');
         board.setName(4, 'q');
@@ -137,8 +137,8 @@ public final class SheetTest {
         CHECK.same("number of nets behind that", board.nets(), 6);
         board.setWire(0, 3, true);
         CHECK.same("the lowest pin numbers the net", board.netOf(7), 0);
-        CHECK.refused("net of pin 8", board, NO_SUCH, () -> board.netOf(8));
-        CHECK.refused("net of pin -1", board, NO_SUCH, () -> board.netOf(-1));
+        CHECK.thrown("net of pin 8", NO_SUCH, () -> board.netOf(8));
+        CHECK.thrown("net of pin -1", NO_SUCH, () -> board.netOf(-1));
     }
 
     private static void netState() {
@@ -170,8 +170,8 @@ public final class SheetTest {
         CHECK.same("two supplies", board.netState(0), '-');
         board.setKind(3, 's');
         CHECK.same("one supply alone", board.netState(3), 'u');
-        CHECK.refused("state of pin 4", board, NO_SUCH, () -> board.netState(4));
-        CHECK.refused("state of pin -1", board, NO_SUCH, () -> board.netState(-1));
+        CHECK.thrown("state of pin 4", NO_SUCH, () -> board.netState(4));
+        CHECK.thrown("state of pin -1", NO_SUCH, () -> board.netState(-1));
     }
 
     private static void swap() {
@@ -195,11 +195,11 @@ public final class SheetTest {
         CHECK.same("no name is left", board.setName(0, '-'), '-');
         CHECK.same("swapped back", board.swap(1, 0), 12 + 12 + 2);
         CHECK.same("the wire is back", board.setWire(0, 2, true), true);
-        CHECK.refused("swap with itself", board, ILLEGAL, () -> board.swap(2, 2));
-        CHECK.refused("swap of two parts' pins", board, ILLEGAL, () -> board.swap(2, 3));
-        CHECK.refused("swap of no pin", board, NO_SUCH, () -> board.swap(5, 0));
-        CHECK.refused("swap with no pin", board, NO_SUCH, () -> board.swap(0, -1));
-        CHECK.refused("swap of no pin with itself", board, NO_SUCH, () -> board.swap(5, 5));
+        CHECK.thrown("swap with itself", ILLEGAL, () -> board.swap(2, 2));
+        CHECK.thrown("swap of two parts' pins", ILLEGAL, () -> board.swap(2, 3));
+        CHECK.thrown("swap of no pin", NO_SUCH, () -> board.swap(5, 0));
+        CHECK.thrown("swap with no pin", NO_SUCH, () -> board.swap(0, -1));
+        CHECK.thrown("swap of no pin with itself", NO_SUCH, () -> board.swap(5, 5));
     }
 
     private static void swapWiresAndItems() {
